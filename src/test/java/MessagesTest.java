@@ -1,0 +1,491 @@
+/** What each kind of message does, and GOING ON (promises 2, 3, 4 and the terms they rest on). */
+final class MessagesTest {
+    private static final Due due = new Due();
+
+    public static void main(String[] args) {
+        prepareRefused();
+        prepareTellsTheLog();
+        prepareToItselfTellsTheLog();
+        promiseOfAnotherBallot();
+        promisesNeedAQuorum();
+        promisesWithSpares();
+        acceptRefused();
+        acceptBelowLow();
+        takenByAll();
+        takenWithSpares();
+        decidedTwiceAndGap();
+        greaterBallotEndsTheRole();
+        noMemberEndsTheRole();
+        toldIsTakenOver();
+        greatestBallotWins();
+        gapGetsNothing();
+        decidedBallotWins();
+        windowOfFour();
+        aloneItDecidesAtOnce();
+        forgetfulSpareDoesNotCount();
+        campaignAgainForgetsProposals();
+        withoutMembersThereIsNoQuorum();
+        due.end("MessagesTest");
+    }
+
+    private static void prepareRefused() {
+        CheapVotes x = new CheapVotes(2);
+        x.campaign(0);
+        x.campaign(1);
+        x.deliver(0);
+        due.onWay("8 below 9", x, Due.mail(1, 0, 1, 9, 0, 0), Due.mail(1, 0, 8, 9, 0, 0));
+        due.same("PREPARING till it hears of it", x.about(0, 1), 1);
+        due.same("REFUSED comes", x.deliver(1), 8);
+        due.same("a BALLOT above its own", x.about(0, 1), 0);
+        due.same("REFUSED is nothing else", x.about(0, 3), 8);
+        // The same BALLOT once more is not below.
+        x.repeat(0);
+        x.deliver(0);
+        x.deliver(0);
+        due.onWay("two PROMISEs", x, Due.mail(0, 1, 2, 9, 0, 0), Due.mail(0, 1, 2, 9, 0, 0));
+    }
+
+    private static void prepareTellsTheLog() {
+        CheapVotes x = Due.led(3);
+        x.submit(0, 5);
+        x.submit(0, 6);
+        x.submit(0, 7);
+        for (int k = 0; k < 12; k++) {
+            x.deliver(0);
+        }
+        // Main 1 gets slot 0 alone.
+        Due.deliverTo(x, 1, 5);
+        Due.loseAll(x);
+        x.campaign(1);
+        due.onWay("with KNOWN", x, Due.mail(1, 0, 1, 9, 1, 0), Due.mail(1, 2, 1, 9, 1, 0));
+        x.deliver(0);
+        due.onWay("slots 1 and 2, then PROMISE", x, Due.mail(1, 2, 1, 9, 1, 0),
+            Due.mail(0, 1, 5, 0, 1, 6), Due.mail(0, 1, 5, 0, 2, 7), Due.mail(0, 1, 2, 9, 0, 0));
+        due.same("main 0 no more", x.about(0, 1), 0);
+    }
+
+    private static void prepareToItselfTellsTheLog() {
+        CheapVotes x = Due.led(2);
+        x.submit(0, 5);
+        x.submit(0, 6);
+        x.deliver(1);
+        x.deliver(1);
+        // Main 0 has slot 1 and not slot 0: DECIDED, PROMISE and TOLD come beside PREPARE.
+        Due.loseAll(x);
+        int before = x.about(0, 8);
+        x.campaign(0);
+        due.same("to itself", x.about(0, 8) - before, 4);
+        due.onWay("to the other one", x, Due.mail(0, 1, 1, 16, 0, 0));
+    }
+
+    private static void promiseOfAnotherBallot() {
+        CheapVotes x = new CheapVotes(2);
+        x.campaign(0);
+        x.deliver(0);
+        x.campaign(0);
+        x.deliver(0);
+        due.same("an old PROMISE does not count", x.about(0, 1), 1);
+        x.deliver(0);
+        x.crash(0, true);
+        x.crash(0, false);
+        x.deliver(0);
+        due.same("nor one without a ROLE", x.about(0, 1), 0);
+    }
+
+    private static void promisesNeedAQuorum() {
+        CheapVotes x = new CheapVotes(3);
+        x.campaign(0);
+        x.deliver(0);
+        x.repeat(1);
+        x.deliver(1);
+        x.deliver(1);
+        due.same("the same one twice", x.about(0, 1), 1);
+        Due.deliverAll(x);
+        due.same("all MEMBERS", x.about(0, 1), 2);
+
+        CheapVotes five = new CheapVotes(5);
+        five.campaign(2);
+        for (int k = 0; k < 7; k++) {
+            five.deliver(0);
+        }
+        due.same("four of five MEMBERS", five.about(2, 1), 1);
+        five.deliver(0);
+        due.same("five of five MEMBERS", five.about(2, 1), 2);
+    }
+
+    private static void promisesWithSpares() {
+        CheapVotes x = new CheapVotes(3);
+        x.crash(2, true);
+        x.campaign(0);
+        Due.deliverAll(x);
+        x.tick();
+        x.tick();
+        due.same("not before the 3rd", x.way(), 0);
+        x.tick();
+        due.onWay("to all that have not promised", x, Due.mail(0, 2, 1, 8, 0, 0),
+            Due.mail(0, 3, 1, 8, 0, 0), Due.mail(0, 4, 1, 8, 0, 0));
+        x.deliver(1);
+        due.same("two of five", x.about(0, 1), 1);
+        x.deliver(2);
+        due.same("three of five", x.about(0, 1), 2);
+        due.same("the spare's PROMISED", x.about(3, 3), 8);
+
+        // Four of seven, and five of nine.
+        int[][] sizes = {{4, 1}, {5, 2}, {2, 0}};
+        for (int[] size : sizes) {
+            CheapVotes y = new CheapVotes(size[0]);
+            for (int i = 1; i < size[0]; i++) {
+                y.crash(i, true);
+            }
+            y.campaign(0);
+            Due.loseAll(y);
+            y.tick();
+            y.tick();
+            y.tick();
+            Due.deliverAll(y);
+            due.same("one main and all spares of " + size[0], y.about(0, 1), 2);
+            due.same("it asked spares", y.about(size[0], 8), 1);
+        }
+    }
+
+    private static void acceptRefused() {
+        CheapVotes x = Due.led(3);
+        x.campaign(1);
+        x.deliver(1);
+        x.submit(0, 5);
+        due.same("ACCEPT to main 2", x.message(3, 1), 2);
+        x.deliver(3);
+        due.same("REFUSED", x.message(3, 2), 8);
+        due.same("with PROMISED", x.message(3, 3), 9);
+        due.same("not ACCEPTED", x.accepted(2, 0, 0), 0);
+        x.deliver(3);
+        due.same("no more LEADING", x.about(0, 1), 0);
+        due.same("what it PROPOSED waits no more", x.about(0, 6), 0);
+    }
+
+    /** A spare that forgot a slot neither keeps nor answers what comes late for it. */
+    private static void acceptBelowLow() {
+        CheapVotes x = Due.led(2);
+        x.crash(1, true);
+        x.submit(0, 7);
+        x.run(3);
+        due.onWay("the 3rd tick", x, Due.mail(0, 1, 3, 8, 0, 7), Due.mail(0, 2, 3, 8, 0, 7));
+        x.repeat(1);
+        x.deliver(0);
+        x.deliver(0);
+        due.same("the spare has it", x.accepted(2, 0, 1), 7);
+        x.tick();
+        due.same("main 1 goes", x.accepted(0, 1, 1), -2);
+        // All comes but the first on the way, which is late.
+        for (int round = 0; round < 40; round++) {
+            while (x.way() > 1) {
+                x.deliver(1);
+            }
+            x.tick();
+        }
+        due.onWay("late", x, Due.mail(0, 2, 3, 8, 0, 7));
+        due.same("LOW", x.about(2, 4), 5);
+        due.same("keeps nothing", x.about(2, 5), 0);
+        due.same("forgot", x.accepted(2, 0, 0), 0);
+        due.same("forgot", x.accepted(2, 0, 1), 0);
+        int came = x.about(2, 8);
+        due.same("deliver", x.deliver(0), 3);
+        due.same("came", x.about(2, 8), came + 1);
+        due.same("no TAKEN", x.way(), 0);
+        due.same("keeps nothing", x.about(2, 5), 0);
+    }
+
+    private static void takenByAll() {
+        CheapVotes x = Due.led(3);
+        x.submit(0, 5);
+        x.deliver(0);
+        x.repeat(1);
+        x.deliver(1);
+        x.deliver(1);
+        due.same("main 1 twice is not enough", x.about(0, 0), 0);
+        x.deliver(0);
+        x.repeat(0);
+        x.deliver(0);
+        due.same("all MEMBERS took it", x.decided(0, 0), 5);
+        due.onWay("DECIDED to the others", x, Due.mail(2, 0, 4, 8, 0, 0),
+            Due.mail(0, 1, 5, 0, 0, 5), Due.mail(0, 2, 5, 0, 0, 5));
+        x.deliver(0);
+        due.same("decided only once", x.way(), 2);
+    }
+
+    private static void takenWithSpares() {
+        CheapVotes x = new CheapVotes(5);
+        for (int i = 2; i < 5; i++) {
+            x.crash(i, true);
+        }
+        x.campaign(0);
+        x.run(6);
+        due.same("LEADING with spares", x.about(0, 1), 2);
+        x.submit(0, 5);
+        x.run(2);
+        due.same("two of nine", x.about(0, 0), 0);
+        x.tick();
+        Due.deliverTo(x, 5, 3);
+        Due.deliverTo(x, 6, 3);
+        Due.deliverTo(x, 0, 4);
+        Due.deliverTo(x, 0, 4);
+        due.same("four of nine", x.about(0, 0), 0);
+        Due.deliverTo(x, 7, 3);
+        Due.deliverTo(x, 0, 4);
+        due.same("five of nine", x.about(0, 0), 1);
+    }
+
+    private static void decidedTwiceAndGap() {
+        CheapVotes x = Due.led(2);
+        x.submit(0, 5);
+        x.submit(0, 6);
+        for (int k = 0; k < 4; k++) {
+            x.deliver(0);
+        }
+        due.onWay("two DECIDED", x, Due.mail(0, 1, 5, 0, 0, 5), Due.mail(0, 1, 5, 0, 1, 6));
+        x.repeat(1);
+        x.deliver(1);
+        x.deliver(1);
+        due.onWay("TOLD of a gap", x, Due.mail(0, 1, 5, 0, 0, 5), Due.mail(1, 0, 6, 0, 0, 0),
+            Due.mail(1, 0, 6, 0, 0, 0));
+        due.same("LOG", x.about(1, 7), 1);
+        x.deliver(0);
+        due.same("TOLD both", x.message(2, 4), 2);
+    }
+
+    private static void greaterBallotEndsTheRole() {
+        CheapVotes x = Due.led(3);
+        x.submit(0, 5);
+        Due.loseAll(x);
+        x.campaign(1);
+        due.same("to main 0", x.message(0, 1), 0);
+        x.deliver(0);
+        due.same("ROLE", x.about(0, 1), 0);
+        due.same("BALLOT", x.about(0, 2), 0);
+        due.same("PROMISED", x.about(0, 3), 9);
+        due.same("waits at one that does not lead", x.submit(0, 6), 1);
+        // One with a BALLOT below its own does not.
+        CheapVotes y = new CheapVotes(2);
+        y.campaign(0);
+        y.campaign(1);
+        y.deliver(0);
+        due.same("still PREPARING", y.about(1, 1), 1);
+    }
+
+    private static void noMemberEndsTheRole() {
+        CheapVotes x = Due.led(3);
+        x.crash(2, true);
+        x.submit(0, 7);
+        x.run(40);
+        due.same("main 2 is out", x.members(0, 5), 3);
+        x.crash(2, false);
+        Due.loseAll(x);
+        due.same("it does not know", x.campaign(2), 10);
+        x.deliver(0);
+        int told = x.way() - 1;
+        due.same("five DECIDED and a PROMISE behind the other PREPARE", told, 6);
+        for (int k = 0; k < 4; k++) {
+            x.deliver(1);
+        }
+        due.same("KNOWN 4: still a MEMBER", x.about(2, 1), 1);
+        x.deliver(1);
+        due.same("KNOWN", x.about(2, 0), 5);
+        due.same("no MEMBER for KNOWN", x.about(2, 1), 0);
+        due.same("BALLOT", x.about(2, 2), 0);
+    }
+
+    private static void toldIsTakenOver() {
+        CheapVotes x = Due.led(3);
+        x.submit(0, 5);
+        x.deliver(0);
+        Due.loseAll(x);
+        x.submit(1, 9);
+        x.campaign(1);
+        Due.deliverTo(x, 2, 1);
+        Due.deliverTo(x, 1, 2);
+        Due.loseAll(x);
+        x.crash(0, true);
+        x.tick();
+        x.tick();
+        x.tick();
+        Due.deliverTo(x, 3, 1);
+        Due.deliverTo(x, 1, 2);
+        due.same("LEADING", x.about(1, 1), 2);
+        due.same("what main 1 itself ACCEPTED", x.accepted(1, 0, 1), 5);
+        due.same("with its own BALLOT", x.accepted(1, 0, 0), 9);
+        due.same("then what waits", x.accepted(1, 1, 1), 9);
+        due.same("nothing waits", x.about(1, 6), 0);
+    }
+
+    private static void greatestBallotWins() {
+        CheapVotes x = Due.led(3);
+        x.submit(0, 5);
+        // Only main 0 has 5 with 8; main 1 leads with 9 by spares, and only it has 6.
+        Due.loseAll(x);
+        x.crash(0, true);
+        x.campaign(1);
+        x.run(3);
+        Due.deliverTo(x, 3, 1);
+        Due.deliverTo(x, 4, 1);
+        Due.deliverTo(x, 1, 2);
+        Due.deliverTo(x, 1, 2);
+        Due.loseAll(x);
+        due.same("LEADING", x.about(1, 1), 2);
+        x.submit(1, 6);
+        Due.loseAll(x);
+        due.same("6 with 9", x.accepted(1, 0, 0), 9);
+        x.crash(0, false);
+        due.same("main 2", x.campaign(2), 10);
+        Due.deliverTo(x, 0, 1);
+        Due.deliverTo(x, 1, 1);
+        Due.deliverAll(x);
+        for (int i = 0; i < 3; i++) {
+            due.same("decided at " + i, x.decided(i, 0), 6);
+        }
+    }
+
+    private static void gapGetsNothing() {
+        CheapVotes x = Due.led(2);
+        x.submit(0, 5);
+        x.submit(0, 6);
+        // Main 1 has slot 1 alone, and leads with the spare.
+        x.deliver(1);
+        Due.loseAll(x);
+        x.crash(0, true);
+        x.submit(1, 8);
+        x.campaign(1);
+        x.run(3);
+        Due.deliverTo(x, 2, 1);
+        Due.deliverTo(x, 1, 2);
+        due.same("LEADING", x.about(1, 1), 2);
+        int[] commands = {0, 6, 8, 0};
+        int[] ballots = {9, 9, 9, 0};
+        for (int s = 0; s < 4; s++) {
+            due.same("slot " + s, x.accepted(1, s, 1), commands[s]);
+            due.same("slot " + s, x.accepted(1, s, 0), ballots[s]);
+        }
+    }
+
+    private static void decidedBallotWins() {
+        CheapVotes x = Due.led(2);
+        x.submit(0, 5);
+        x.deliver(0);
+        x.deliver(0);
+        // Main 0 knows 5; its DECIDED is lost twice, and its PROMISE tells it.
+        Due.loseAll(x);
+        x.campaign(1);
+        x.deliver(0);
+        due.same("DECIDED", x.message(0, 2), 5);
+        x.lose(0);
+        x.deliver(0);
+        due.onWay("proposed anew", x, Due.mail(1, 0, 3, 9, 0, 5));
+        Due.deliverAll(x);
+        due.same("main 1", x.decided(1, 0), 5);
+    }
+
+    private static void windowOfFour() {
+        CheapVotes x = Due.led(2);
+        for (int k = 1; k <= 6; k++) {
+            x.submit(0, k);
+        }
+        due.same("four are on the way", x.way(), 4);
+        // Slot 3 is decided first: KNOWN stays, so nothing is PROPOSED.
+        x.deliver(3);
+        x.deliver(3);
+        due.same("two wait", x.about(0, 6), 2);
+        x.deliver(0);
+        Due.deliverTo(x, 0, 4);
+        due.same("KNOWN", x.about(0, 0), 1);
+        due.same("one waits", x.about(0, 6), 1);
+        due.same("slot 4", x.accepted(0, 4, 1), 5);
+        int last = x.way() - 1;
+        due.same("ACCEPT behind DECIDED", x.message(last, 2), 3);
+        due.same("DECIDED", x.message(last - 1, 2), 5);
+    }
+
+    /** The last MEMBER is a QUORUM by itself: ACCEPT and TAKEN go to itself. */
+    private static void aloneItDecidesAtOnce() {
+        CheapVotes x = Due.led(2);
+        x.crash(1, true);
+        x.submit(0, 7);
+        x.run(40);
+        due.same("main 1 is out", x.members(0, x.about(0, 0)), 1);
+        Due.loseAll(x);
+        int known = x.about(0, 0);
+        int came = x.about(0, 8);
+        due.same("submit", x.submit(0, 9), 0);
+        due.same("decided at once", x.decided(0, known), 9);
+        due.same("ACCEPT and TAKEN", x.about(0, 8), came + 2);
+        due.onWay("all other mains hear of it", x, Due.mail(0, 1, 5, 0, known, 9));
+
+        // All that waits is decided by one campaign, over several windows.
+        Due.loseAll(x);
+        x.crash(0, true);
+        x.crash(0, false);
+        for (int k = 0; k < 20; k++) {
+            due.same("waits", x.submit(0, 100 + k), k + 1);
+        }
+        due.same("campaign", x.campaign(0), 16);
+        due.same("KNOWN", x.about(0, 0), known + 21);
+        due.same("nothing waits", x.about(0, 6), 0);
+        due.same("the last", x.decided(0, known + 20), 119);
+        due.same("DECIDED", x.way(), 20);
+    }
+
+    /** A main that knows too little cannot lead with a spare that forgot. */
+    private static void forgetfulSpareDoesNotCount() {
+        CheapVotes x = Due.led(2);
+        x.crash(1, true);
+        x.submit(0, 7);
+        x.run(40);
+        Due.loseAll(x);
+        due.same("LOW", x.about(2, 4), 5);
+        x.crash(0, true);
+        x.crash(1, false);
+        due.same("campaign", x.campaign(1), 9);
+        x.run(10);
+        due.same("the spare's PROMISED", x.about(2, 3), 9);
+        due.same("not LEADING", x.about(1, 1), 1);
+        due.same("KNOWN", x.about(1, 0), 0);
+    }
+
+    private static void campaignAgainForgetsProposals() {
+        CheapVotes x = Due.led(3);
+        x.submit(0, 5);
+        Due.loseAll(x);
+        due.same("campaign", x.campaign(0), 16);
+        due.same("PREPARING", x.about(0, 1), 1);
+        Due.deliverTo(x, 1, 1);
+        Due.deliverTo(x, 2, 1);
+        Due.deliverTo(x, 0, 2);
+        due.same("one PROMISE is missing", x.about(0, 1), 1);
+        Due.deliverTo(x, 0, 2);
+        due.onWay("5 once more", x, Due.mail(0, 1, 3, 16, 0, 5), Due.mail(0, 2, 3, 16, 0, 5));
+    }
+
+    /** Two mains take out one another: behind that, nobody is left. */
+    private static void withoutMembersThereIsNoQuorum() {
+        CheapVotes x = Due.led(2);
+        // Main 0 PROPOSES to take out main 1, and only the spare hears of it.
+        x.crash(1, true);
+        x.submit(0, 7);
+        x.run(8);
+        due.same("the spare has it", x.accepted(2, 1, 1), -2);
+        Due.loseAll(x);
+        x.crash(0, true);
+        x.crash(1, false);
+        x.submit(1, 8);
+        x.campaign(1);
+        for (int k = 0; k < 60; k++) {
+            x.run(1);
+        }
+        due.same("slot 0", x.decided(1, 0), 7);
+        due.same("slot 1", x.decided(1, 1), -2);
+        due.same("slot 2", x.decided(1, 2), 8);
+        due.same("slot 3", x.decided(1, 3), -1);
+        due.same("MEMBERS for 4", x.members(1, 4), 3);
+        due.same("MEMBERS for 5", x.members(1, 5), 1);
+        due.same("MEMBERS for 7", x.members(1, 7), 0);
+        due.same("no MEMBER for KNOWN", x.about(1, 1), 0);
+    }
+}
