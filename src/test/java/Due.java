@@ -65,6 +65,12 @@ final class Due {
         }
     }
 
+    static void ticks(CheapVotes x, int n) {
+        for (int k = 0; k < n; k++) {
+            x.tick();
+        }
+    }
+
     static void loseAll(CheapVotes x) {
         for (int k = 0; k < 300 && x.way() > 0; k++) {
             x.lose(0);

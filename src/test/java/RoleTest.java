@@ -27,12 +27,6 @@ final class RoleTest {
         due.end("RoleTest");
     }
 
-    private static void ticks(CheapVotes x, int n) {
-        for (int k = 0; k < n; k++) {
-            x.tick();
-        }
-    }
-
     /** Slot 0 has 5, of main 0 and 1; main 0 leads anew with 16, and ACCEPT 16 is on the way. */
     private static CheapVotes ledAgain() {
         CheapVotes x = Due.led(3);
@@ -76,13 +70,13 @@ final class RoleTest {
     private static void slotTicksAreGone() {
         CheapVotes x = Due.led(2);
         x.submit(0, 5);
-        ticks(x, 2);
+        Due.ticks(x, 2);
         Due.loseAll(x);
         x.campaign(0);
         x.deliver(0);
         x.deliver(0);
         Due.loseAll(x);
-        ticks(x, 2);
+        Due.ticks(x, 2);
         due.same("2nd", x.way(), 0);
         x.tick();
         due.onWay("3rd", x, Due.mail(0, 1, 3, 16, 0, 5), Due.mail(0, 2, 3, 16, 0, 5));
@@ -105,7 +99,7 @@ final class RoleTest {
 
     /** Main 0 prepares anew, asks the spare by a tick, and leads with it; main 1 hears nothing. */
     private static void leadWithSpare(CheapVotes x) {
-        ticks(x, 3);
+        Due.ticks(x, 3);
         Due.deliverTo(x, 2, 1);
         Due.deliverTo(x, 0, 2);
         due.same("LEADING", x.about(0, 1), 2);
@@ -146,7 +140,7 @@ final class RoleTest {
         x.submit(0, 5);
         x.submit(0, 6);
         Due.loseAll(x);
-        ticks(x, 3);
+        Due.ticks(x, 3);
         while (Due.deliverTo(x, 1, 3) || Due.deliverTo(x, 0, 4) || Due.deliverTo(x, 1, 5)) {
             due.same("nothing is lost", x.lost(), 0);
         }
@@ -164,7 +158,7 @@ final class RoleTest {
         CheapVotes x = Due.led(2);
         x.submit(0, 5);
         Due.loseAll(x);
-        ticks(x, 3);
+        Due.ticks(x, 3);
         due.same("the spare is asked with 8", x.message(1, 1), 2);
         Due.deliverAll(x);
         x.campaign(0);
@@ -194,18 +188,18 @@ final class RoleTest {
     private static void proposedGoingIsGone() {
         CheapVotes x = Due.led(3);
         x.submit(0, 7);
-        ticks(x, 4);
+        Due.ticks(x, 4);
         due.same("main 2 goes", x.accepted(0, 2, 1), -3);
         Due.loseAll(x);
         x.crash(0, true);
         x.campaign(1);
         Due.deliverAll(x);
-        ticks(x, 3);
+        Due.ticks(x, 3);
         Due.deliverAll(x);
         for (int k = 11; k <= 13; k++) {
             x.submit(1, k);
         }
-        ticks(x, 3);
+        Due.ticks(x, 3);
         Due.deliverAll(x);
         due.same("other commands won", x.decided(2, 2), 13);
         x.crash(0, false);
@@ -216,7 +210,7 @@ final class RoleTest {
         Due.deliverTo(x, 1, 3);
         Due.deliverTo(x, 0, 4);
         Due.loseAll(x);
-        ticks(x, 4);
+        Due.ticks(x, 4);
         due.same("main 2 goes", x.accepted(0, 4, 1), -3);
     }
 
@@ -241,7 +235,7 @@ final class RoleTest {
         Due.deliverAll(x);
         due.same("gap", x.about(1, 0), 0);
         due.same("slot 1", x.decided(1, 1), -3);
-        ticks(x, 3);
+        Due.ticks(x, 3);
         Due.deliverTo(x, 3, 1);
         Due.deliverTo(x, 1, 2);
         due.same("LEADING", x.about(1, 1), 2);
@@ -249,7 +243,7 @@ final class RoleTest {
         Due.deliverTo(x, 0, 3);
         Due.deliverTo(x, 1, 4);
         Due.loseAll(x);
-        ticks(x, 4);
+        Due.ticks(x, 4);
         due.same("slot 0 is open", x.about(1, 0), 0);
         due.same("main 2 does not wait to go again", x.about(1, 6), 0);
         due.same("nor is PROPOSED", x.accepted(1, 2, 0), 0);
@@ -263,7 +257,7 @@ final class RoleTest {
         Due.deliverTo(x, 0, 4);
         Due.deliverTo(x, 0, 4);
         Due.loseAll(x);
-        ticks(x, 4);
+        Due.ticks(x, 4);
         due.same("main 3 goes", x.accepted(0, 1, 1), -4);
         int[] waits = {0, 0, 1, 2};
         for (int k = 0; k < 4; k++) {
@@ -272,9 +266,9 @@ final class RoleTest {
         Due.deliverTo(x, 1, 3);
         Due.deliverTo(x, 0, 4);
         Due.loseAll(x);
-        ticks(x, 4);
+        Due.ticks(x, 4);
         due.same("main 1 and 2 wait to go", x.about(0, 6), 4);
-        ticks(x, 1);
+        Due.ticks(x, 1);
         Due.deliverAll(x);
         due.same("main 2 goes first, as main 1 took slot 1", x.decided(0, 4), -3);
         due.same("then main 1, by slot 2", x.decided(0, 5), -2);
@@ -327,7 +321,7 @@ final class RoleTest {
         x.crash(crashed, true);
         campaignWith(x, main, r);
         Due.deliverAll(x);
-        ticks(x, 3);
+        Due.ticks(x, 3);
         Due.deliverAll(x);
         x.submit(main, r);
         Due.loseAll(x);
@@ -359,10 +353,10 @@ final class RoleTest {
         x.crash(0, true);
         x.campaign(1);
         Due.deliverAll(x);
-        ticks(x, 3);
+        Due.ticks(x, 3);
         Due.deliverAll(x);
         x.submit(1, 6);
-        ticks(x, 3);
+        Due.ticks(x, 3);
         Due.deliverAll(x);
         due.same("decided", x.decided(2, 0), 6);
         x.crash(0, false);
@@ -394,12 +388,12 @@ final class RoleTest {
         x.crash(2, true);
         x.campaign(0);
         Due.loseAll(x);
-        ticks(x, 3);
+        Due.ticks(x, 3);
         deliverFrom(x, 0, 3, 1);
         deliverFrom(x, 3, 0, 2);
         Due.loseAll(x);
         x.campaign(1);
-        ticks(x, 3);
+        Due.ticks(x, 3);
         for (int spare = 3; spare <= 4; spare++) {
             deliverFrom(x, 1, spare, 1);
             deliverFrom(x, spare, 1, 2);
@@ -407,7 +401,7 @@ final class RoleTest {
         due.same("LEADING with 9", x.about(1, 1), 2);
         x.submit(1, 6);
         Due.loseAll(x);
-        ticks(x, 3);
+        Due.ticks(x, 3);
         for (int spare = 3; spare <= 4; spare++) {
             deliverFrom(x, 1, spare, 3);
             deliverFrom(x, spare, 1, 4);
@@ -419,7 +413,7 @@ final class RoleTest {
         due.same("main 2 knows", x.decided(2, 0), 6);
         due.same("and ACCEPTED nothing", x.about(2, 5), 0);
         due.same("waits", x.submit(0, 5), 1);
-        ticks(x, 3);
+        Due.ticks(x, 3);
         deliverFrom(x, 0, 2, 1);
         deliverFrom(x, 2, 0, 2);
         due.same("LEADING with 8", x.about(0, 1), 2);
@@ -458,7 +452,7 @@ final class RoleTest {
             x.submit(0, k);
         }
         Due.loseAll(x);
-        ticks(x, 3);
+        Due.ticks(x, 3);
         due.same("two ACCEPTs for each slot", x.way(), 8);
         for (int i = 0; i < 8; i++) {
             due.same("ACCEPT", x.message(i, 2), 3);
@@ -514,14 +508,14 @@ final class RoleTest {
         due.same("MEMBERS for 102", x.members(0, 102), 3);
         due.same("MEMBERS for 103", x.members(0, 103), 1);
         due.same("0 waits", x.about(0, 6), 1);
-        ticks(x, 5);
+        Due.ticks(x, 5);
         due.same("once", x.about(0, 6), 1);
     }
 
     private static void acceptIsAPromise() {
         CheapVotes x = Due.led(2);
         x.submit(0, 5);
-        ticks(x, 3);
+        Due.ticks(x, 3);
         due.same("the spare has not promised", x.about(2, 3), 0);
         Due.deliverTo(x, 2, 3);
         due.same("PROMISED", x.about(2, 3), 8);

@@ -21,29 +21,23 @@ final class TickTest {
         due.end("TickTest");
     }
 
-    private static void ticks(CheapVotes x, int n) {
-        for (int k = 0; k < n; k++) {
-            x.tick();
-        }
-    }
-
     private static void idleNodesDoNothing() {
         CheapVotes x = new CheapVotes(5);
         x.submit(1, 5);
-        ticks(x, 20);
+        Due.ticks(x, 20);
         due.same("way", x.way(), 0);
         due.same("still waits", x.about(1, 6), 1);
 
         CheapVotes led = Due.led(3);
-        ticks(led, 20);
+        Due.ticks(led, 20);
         due.same("LEADING without work", led.way(), 0);
 
         CheapVotes y = new CheapVotes(2);
         y.campaign(0);
         Due.loseAll(y);
-        ticks(y, 2);
+        Due.ticks(y, 2);
         y.crash(0, true);
-        ticks(y, 5);
+        Due.ticks(y, 5);
         due.same("crashed", y.way(), 0);
     }
 
@@ -65,7 +59,7 @@ final class TickTest {
         x.tick();
         x.campaign(1);
         Due.loseAll(x);
-        ticks(x, 2);
+        Due.ticks(x, 2);
         due.same("2nd", x.way(), 0);
         x.tick();
         due.same("3rd", x.way(), 4);
@@ -73,7 +67,7 @@ final class TickTest {
         Due.deliverTo(x, 3, 1);
         Due.deliverTo(x, 1, 2);
         Due.loseAll(x);
-        ticks(x, 3);
+        Due.ticks(x, 3);
         due.onWay("but to those that promised", x, Due.mail(1, 0, 1, 17, 0, 0),
             Due.mail(1, 2, 1, 17, 0, 0), Due.mail(1, 4, 1, 17, 0, 0));
     }
@@ -90,7 +84,7 @@ final class TickTest {
         Due.deliverTo(x, 1, 5);
         due.same("KNOWN", x.about(1, 0), 1);
         Due.loseAll(x);
-        ticks(x, 3);
+        Due.ticks(x, 3);
         due.onWay("now", x, Due.mail(1, 0, 1, 9, 1, 0), Due.mail(1, 2, 1, 9, 1, 0),
             Due.mail(1, 3, 1, 9, 1, 0), Due.mail(1, 4, 1, 9, 1, 0));
     }
@@ -169,7 +163,7 @@ final class TickTest {
         due.onWay("3rd of slot 1", x, Due.mail(0, 1, 3, 8, 1, 6), Due.mail(0, 2, 3, 8, 1, 6),
             Due.mail(0, 3, 3, 8, 1, 6), Due.mail(0, 4, 3, 8, 1, 6));
         Due.loseAll(x);
-        ticks(x, 2);
+        Due.ticks(x, 2);
         due.same("what was decided counts no more", firstOfKind(x, 1), -1);
         Due.loseAll(x);
         x.tick();
@@ -183,7 +177,7 @@ final class TickTest {
         Due.deliverTo(x, 1, 3);
         Due.deliverTo(x, 0, 4);
         Due.loseAll(x);
-        ticks(x, 3);
+        Due.ticks(x, 3);
         Due.loseAll(x);
         x.tick();
         due.onWay("at the 4th main 2 goes, main 1 does not", x, Due.mail(0, 1, 3, 8, 1, -3),
@@ -194,7 +188,7 @@ final class TickTest {
         // By numbers, and only at the 4th.
         CheapVotes y = Due.led(4);
         y.submit(0, 5);
-        ticks(y, 4);
+        Due.ticks(y, 4);
         due.same("main 1", y.accepted(0, 1, 1), -2);
         due.same("main 2", y.accepted(0, 2, 1), -3);
         due.same("main 3", y.accepted(0, 3, 1), -4);
@@ -208,14 +202,14 @@ final class TickTest {
         }
         due.same("two wait", x.about(0, 6), 2);
         Due.loseAll(x);
-        ticks(x, 4);
+        Due.ticks(x, 4);
         due.same("and two that go", x.about(0, 6), 4);
         for (int k = 5; k <= 20; k++) {
             due.same("submit", x.submit(0, 95 + k), k);
         }
         due.refused("20 wait", Due.STATE, () -> x.submit(0, 999));
         Due.loseAll(x);
-        ticks(x, 2);
+        Due.ticks(x, 2);
         Due.deliverAll(x);
         due.same("then goes main 1", x.decided(0, 4), -2);
         due.same("then goes main 2", x.decided(0, 5), -3);
@@ -236,14 +230,14 @@ final class TickTest {
         Due.loseAll(x);
         x.tick();
         due.same("4th of slot 0", x.about(0, 6), 2);
-        ticks(x, 3);
+        Due.ticks(x, 3);
         due.same("they wait already", x.about(0, 6), 2);
 
         CheapVotes y = Due.led(3);
         y.submit(0, 1);
         y.tick();
         y.submit(0, 2);
-        ticks(y, 3);
+        Due.ticks(y, 3);
         due.same("PROPOSED", y.accepted(0, 2, 1), -2);
         due.same("PROPOSED", y.accepted(0, 3, 1), -3);
         y.tick();
@@ -283,7 +277,7 @@ final class TickTest {
         due.same("MEMBER for KNOWN", x.about(1, 1), 2);
         x.submit(1, 8);
         Due.loseAll(x);
-        ticks(x, 5);
+        Due.ticks(x, 5);
         due.same("nobody waits to go", x.about(1, 6), 0);
         due.same("nor is PROPOSED", x.accepted(1, 3, 0), 0);
     }
@@ -315,7 +309,7 @@ final class TickTest {
         // Something is PROPOSED and not decided: no 0.
         x.submit(0, 8);
         Due.loseAll(x);
-        ticks(x, 2);
+        Due.ticks(x, 2);
         due.same("slot 2", x.accepted(0, 2, 1), 8);
         due.same("slot 3", x.accepted(0, 3, 0), 0);
         due.same("nothing waits", x.about(0, 6), 0);
@@ -338,7 +332,7 @@ final class TickTest {
         Due.deliverTo(x, 1, 3);
         Due.deliverTo(x, 0, 4);
         Due.loseAll(x);
-        ticks(x, 3);
+        Due.ticks(x, 3);
         Due.deliverAll(x);
         due.same("spares were asked", x.accepted(3, 1, 1), 6);
         due.same("KNOWN", x.about(0, 0), 2);
@@ -358,7 +352,7 @@ final class TickTest {
         CheapVotes x = Due.led(2);
         x.submit(0, 5);
         Due.loseAll(x);
-        ticks(x, 3);
+        Due.ticks(x, 3);
         Due.deliverAll(x);
         x.tick();
         due.onWay("k is 1", x, Due.mail(0, 2, 7, 0, 1, 0));
@@ -375,7 +369,7 @@ final class TickTest {
         due.same("LOW", x.about(2, 4), 2);
         x.submit(0, 7);
         Due.loseAll(x);
-        ticks(x, 3);
+        Due.ticks(x, 3);
         Due.deliverAll(x);
         due.same("ACCEPTED above LOW", x.about(2, 5), 1);
         x.tick();
@@ -387,7 +381,7 @@ final class TickTest {
         CheapVotes y = Due.led(2);
         y.submit(0, 5);
         Due.loseAll(y);
-        ticks(y, 3);
+        Due.ticks(y, 3);
         Due.deliverAll(y);
         y.tick();
         y.submit(0, 6);
@@ -406,7 +400,7 @@ final class TickTest {
         x.submit(0, 5);
         x.submit(0, 6);
         Due.loseAll(x);
-        ticks(x, 3);
+        Due.ticks(x, 3);
         while (Due.deliverTo(x, 1, 3) || Due.deliverTo(x, 2, 3) || Due.deliverTo(x, 0, 4)) {
             due.same("not told yet", x.lost(), 0);
         }
