@@ -68,7 +68,8 @@ public final class CheapVotes {
     }
 
     /** Promise 2. */
-    public int submit(int node, int c) {
+    public int submit(int node, int c)
+            throws IndexOutOfBoundsException, IllegalArgumentException, IllegalStateException {
         checkMain(node);
         if (c < 1) {
             throw new IllegalArgumentException("the command is below 1");
@@ -83,7 +84,7 @@ public final class CheapVotes {
     }
 
     /** Promise 3. */
-    public int campaign(int node) {
+    public int campaign(int node) throws IndexOutOfBoundsException, IllegalStateException {
         checkMain(node);
         Log log = mains[node].log;
         Lead lead = mains[node].lead;
@@ -91,7 +92,7 @@ public final class CheapVotes {
         int ballot = nextBallot(above, node);
         if (nodes[node].crashed || log.known >= SLOTS || !log.isMember(node)
                 || ballot / BALLOT_STEP > MOST_R) {
-            throw new IllegalStateException("crashed, no member, all is known, or too many ballots");
+            throw new IllegalStateException("crashed, no member, all is known, or r is too high");
         }
         lead.begin(ballot);
         sendPrepares(node, log.membersAt(log.known));
@@ -100,20 +101,20 @@ public final class CheapVotes {
     }
 
     /** Promise 4. */
-    public int deliver(int i) {
+    public int deliver(int i) throws IndexOutOfBoundsException {
         checkMessage(i);
         return arrive(mail.onWay.take(i));
     }
 
     /** Promise 5. */
-    public int lose(int i) {
+    public int lose(int i) throws IndexOutOfBoundsException {
         checkMessage(i);
         mail.release(mail.onWay.take(i));
         return mail.onWay.size;
     }
 
     /** Promise 6. */
-    public int repeat(int i) {
+    public int repeat(int i) throws IndexOutOfBoundsException, IllegalStateException {
         checkMessage(i);
         if (mail.onWay.size >= MOST_ON_WAY) {
             throw new IllegalStateException("300 are on the way");
@@ -130,7 +131,7 @@ public final class CheapVotes {
     }
 
     /** Promise 8. */
-    public int run(int n) {
+    public int run(int n) throws IllegalArgumentException {
         if (n < 1 || n > MOST_ROUNDS) {
             throw new IllegalArgumentException("not 1 .. 50 rounds");
         }
@@ -147,7 +148,7 @@ public final class CheapVotes {
     }
 
     /** Promise 9. */
-    public int crash(int node, boolean on) {
+    public int crash(int node, boolean on) throws IndexOutOfBoundsException {
         checkNode(node);
         int was = nodes[node].crashed ? 1 : 0;
         nodes[node].crashed = on;
@@ -165,7 +166,7 @@ public final class CheapVotes {
     }
 
     /** Promise 11. */
-    public int message(int i, int what) {
+    public int message(int i, int what) throws IndexOutOfBoundsException {
         checkMessage(i);
         Message x = mail.onWay.at(i);
         if (x == null) {
@@ -183,7 +184,7 @@ public final class CheapVotes {
     }
 
     /** Promise 12. */
-    public int decided(int node, int slot) {
+    public int decided(int node, int slot) throws IndexOutOfBoundsException {
         checkMain(node);
         if (!mains[node].log.has(slot)) {
             throw new IndexOutOfBoundsException("no command is known for the slot");
@@ -192,7 +193,7 @@ public final class CheapVotes {
     }
 
     /** Promise 13. */
-    public int about(int node, int what) {
+    public int about(int node, int what) throws IndexOutOfBoundsException {
         checkNode(node);
         Main main = mainOf(node);
         switch (what) {
@@ -210,7 +211,7 @@ public final class CheapVotes {
     }
 
     /** Promise 14. */
-    public int accepted(int node, int slot, int what) {
+    public int accepted(int node, int slot, int what) throws IndexOutOfBoundsException {
         checkNode(node);
         if (slot < 0 || slot >= SLOTS || what < 0 || what > 1) {
             throw new IndexOutOfBoundsException("no such slot, or not 0 or 1");
@@ -220,7 +221,7 @@ public final class CheapVotes {
     }
 
     /** Promise 15. */
-    public int members(int node, int slot) {
+    public int members(int node, int slot) throws IndexOutOfBoundsException {
         checkMain(node);
         Log log = mains[node].log;
         if (slot < 0 || slot >= log.known + AHEAD) {

@@ -5,14 +5,31 @@ import java.lang.reflect.Method;
 import java.lang.reflect.Modifier;
 import java.util.Arrays;
 import java.util.TreeSet;
+import java.util.stream.Collectors;
 
 /** The class has the document's face and no other member that can be seen from outside. */
 final class FaceTest {
+    private static final String INDEX = "java.lang.IndexOutOfBoundsException";
+    private static final String ARGUMENT = "java.lang.IllegalArgumentException";
+    private static final String STATE = "java.lang.IllegalStateException";
+
+    /** Each method as the document's code block declares it, its exceptions in their order. */
     private static final String[] FACE = {
-        "int about(int, int)", "int accepted(int, int, int)", "int campaign(int)",
-        "int crash(int, boolean)", "int decided(int, int)", "int deliver(int)", "int lose(int)",
-        "int lost()", "int members(int, int)", "int message(int, int)", "int repeat(int)",
-        "int run(int)", "int submit(int, int)", "int way()", "void tick()",
+        "int submit(int, int) throws " + INDEX + ", " + ARGUMENT + ", " + STATE,
+        "int campaign(int) throws " + INDEX + ", " + STATE,
+        "int deliver(int) throws " + INDEX,
+        "int lose(int) throws " + INDEX,
+        "int repeat(int) throws " + INDEX + ", " + STATE,
+        "void tick()",
+        "int run(int) throws " + ARGUMENT,
+        "int crash(int, boolean) throws " + INDEX,
+        "int way()",
+        "int message(int, int) throws " + INDEX,
+        "int decided(int, int) throws " + INDEX,
+        "int about(int, int) throws " + INDEX,
+        "int accepted(int, int, int) throws " + INDEX,
+        "int members(int, int) throws " + INDEX,
+        "int lost()",
     };
 
     private static final Due due = new Due();
@@ -30,21 +47,34 @@ final class FaceTest {
         return Modifier.isPrivate(member.getModifiers());
     }
 
+    private static String names(Class<?>[] types) {
+        return Arrays.stream(types).map(Class::getName).collect(Collectors.joining(", "));
+    }
+
+    private static String declared(Method method) {
+        String exceptions = names(method.getExceptionTypes());
+        return method.getReturnType() + " " + method.getName()
+            + "(" + names(method.getParameterTypes()) + ")"
+            + (exceptions.isEmpty() ? "" : " throws " + exceptions);
+    }
+
     private static void methods() {
         TreeSet<String> seen = new TreeSet<>();
         TreeSet<String> names = new TreeSet<>();
         for (Method method : CheapVotes.class.getDeclaredMethods()) {
             if (!isPrivate(method)) {
-                String types = Arrays.toString(Arrays.stream(method.getParameterTypes())
-                    .map(Class::getName).toArray());
-                types = types.substring(1, types.length() - 1);
-                seen.add(method.getReturnType() + " " + method.getName() + "(" + types + ")");
+                seen.add(declared(method));
                 names.add(method.getName());
                 due.same("public: " + method.getName(), method.getModifiers(), Modifier.PUBLIC);
             }
         }
         TreeSet<String> face = new TreeSet<>(Arrays.asList(FACE));
-        due.same("methods " + seen, seen.equals(face) ? 1 : 0, 1);
+        for (String method : face) {
+            due.same("stands: " + method, seen.contains(method) ? 1 : 0, 1);
+        }
+        for (String method : seen) {
+            due.same("is the document's: " + method, face.contains(method) ? 1 : 0, 1);
+        }
         noSecondName(CheapVotes.class, names);
         for (Class<?> inside : CheapVotes.class.getDeclaredClasses()) {
             noSecondName(inside, names);
@@ -66,7 +96,9 @@ final class FaceTest {
         for (Constructor<?> constructor : CheapVotes.class.getDeclaredConstructors()) {
             if (!isPrivate(constructor)) {
                 seen++;
-                due.same("takes one int", constructor.getParameterCount(), 1);
+                String types = names(constructor.getParameterTypes());
+                due.same("takes one int: " + types, types.equals("int") ? 1 : 0, 1);
+                due.same("declares no exception", constructor.getExceptionTypes().length, 0);
                 due.same("public", constructor.getModifiers(), Modifier.PUBLIC);
             }
         }
