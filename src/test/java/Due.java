@@ -1,3 +1,8 @@
+import java.util.ArrayList;
+import java.util.List;
+import java.util.function.Supplier;
+import java.util.function.ToLongFunction;
+
 /** Compares answers with those that are due, and ends a test. */
 final class Due {
     static final Class<?> INDEX = IndexOutOfBoundsException.class;
@@ -33,6 +38,73 @@ final class Due {
         }
         wrong++;
         System.out.println(what + " " + got + ", due is " + want.getName());
+    }
+
+    /**
+     * A refused call leaves everything as it was. A twin of the object, to which the call was never
+     * made, tells what there was to see, and by some ticks and rounds what cannot be seen at once.
+     */
+    void refusedLeaves(String what, Class<?> want, Supplier<CheapVotes> scene,
+            ToLongFunction<CheapVotes> call) {
+        CheapVotes x = scene.get();
+        CheapVotes twin = scene.get();
+        refused(what, want, () -> call.applyAsLong(x));
+        sameSeen(what + ", at once", x, twin);
+        for (int k = 1; k <= 7; k++) {
+            x.tick();
+            twin.tick();
+            sameSeen(what + ", " + k + " ticks later", x, twin);
+        }
+        for (int k = 1; k <= 8; k++) {
+            x.run(1);
+            twin.run(1);
+            sameSeen(what + ", " + k + " rounds later", x, twin);
+        }
+    }
+
+    private void sameSeen(String what, CheapVotes x, CheapVotes twin) {
+        checked++;
+        List<String> got = seen(x);
+        List<String> want = seen(twin);
+        for (int k = 0; k < Math.min(got.size(), want.size()); k++) {
+            if (!got.get(k).equals(want.get(k))) {
+                wrong++;
+                System.out.println(what + ": " + got.get(k) + ", due is " + want.get(k));
+                return;
+            }
+        }
+    }
+
+    /** All that the calls of the face tell of an object; its first row tells how many there are. */
+    private static List<String> seen(CheapVotes x) {
+        List<String> all = new ArrayList<>();
+        all.add("way() = " + x.way());
+        all.add("lost() = " + x.lost());
+        for (int i = 0; i < x.way(); i++) {
+            for (int k = 0; k < 6; k++) {
+                all.add("message(" + i + ", " + k + ") = " + x.message(i, k));
+            }
+        }
+        int mains = Integer.bitCount(x.members(0, 0));
+        for (int node = 0; node < 2 * mains - 1; node++) {
+            for (int k = 0; k < 9; k++) {
+                all.add("about(" + node + ", " + k + ") = " + x.about(node, k));
+            }
+            for (int s = 0; s < 100; s++) {
+                all.add("accepted(" + node + ", " + s + ") = " + x.accepted(node, s, 0) + " "
+                    + x.accepted(node, s, 1));
+                all.add("decided(" + node + ", " + s + ") = " + decidedOrNot(x, node, s));
+            }
+        }
+        return all;
+    }
+
+    private static String decidedOrNot(CheapVotes x, int node, int slot) {
+        try {
+            return String.valueOf(x.decided(node, slot));
+        } catch (IndexOutOfBoundsException e) {
+            return "none";
+        }
     }
 
     /** All that is on the way: from, to, kind, BALLOT, slot and command of each. */

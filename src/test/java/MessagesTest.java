@@ -15,7 +15,6 @@ final class MessagesTest {
         takenWithSpares();
         decidedTwiceAndGap();
         greaterBallotEndsTheRole();
-        noMemberEndsTheRole();
         toldIsTakenOver();
         greatestBallotWins();
         gapGetsNothing();
@@ -24,7 +23,6 @@ final class MessagesTest {
         aloneItDecidesAtOnce();
         forgetfulSpareDoesNotCount();
         campaignAgainForgetsProposals();
-        withoutMembersThereIsNoQuorum();
         due.end("MessagesTest");
     }
 
@@ -272,28 +270,6 @@ final class MessagesTest {
         due.same("still PREPARING", y.about(1, 1), 1);
     }
 
-    private static void noMemberEndsTheRole() {
-        CheapVotes x = Due.led(3);
-        x.crash(2, true);
-        x.submit(0, 7);
-        x.run(40);
-        due.same("main 2 is out", x.members(0, 5), 3);
-        x.crash(2, false);
-        Due.loseAll(x);
-        due.same("it does not know", x.campaign(2), 10);
-        x.deliver(0);
-        int told = x.way() - 1;
-        due.same("five DECIDED and a PROMISE behind the other PREPARE", told, 6);
-        for (int k = 0; k < 4; k++) {
-            x.deliver(1);
-        }
-        due.same("KNOWN 4: still a MEMBER", x.about(2, 1), 1);
-        x.deliver(1);
-        due.same("KNOWN", x.about(2, 0), 5);
-        due.same("no MEMBER for KNOWN", x.about(2, 1), 0);
-        due.same("BALLOT", x.about(2, 2), 0);
-    }
-
     private static void toldIsTakenOver() {
         CheapVotes x = Due.led(3);
         x.submit(0, 5);
@@ -461,31 +437,5 @@ final class MessagesTest {
         due.same("one PROMISE is missing", x.about(0, 1), 1);
         Due.deliverTo(x, 0, 2);
         due.onWay("5 once more", x, Due.mail(0, 1, 3, 16, 0, 5), Due.mail(0, 2, 3, 16, 0, 5));
-    }
-
-    /** Two mains take out one another: behind that, nobody is left. */
-    private static void withoutMembersThereIsNoQuorum() {
-        CheapVotes x = Due.led(2);
-        // Main 0 PROPOSES to take out main 1, and only the spare hears of it.
-        x.crash(1, true);
-        x.submit(0, 7);
-        x.run(8);
-        due.same("the spare has it", x.accepted(2, 1, 1), -2);
-        Due.loseAll(x);
-        x.crash(0, true);
-        x.crash(1, false);
-        x.submit(1, 8);
-        x.campaign(1);
-        for (int k = 0; k < 60; k++) {
-            x.run(1);
-        }
-        due.same("slot 0", x.decided(1, 0), 7);
-        due.same("slot 1", x.decided(1, 1), -2);
-        due.same("slot 2", x.decided(1, 2), 8);
-        due.same("slot 3", x.decided(1, 3), -1);
-        due.same("MEMBERS for 4", x.members(1, 4), 3);
-        due.same("MEMBERS for 5", x.members(1, 5), 1);
-        due.same("MEMBERS for 7", x.members(1, 7), 0);
-        due.same("no MEMBER for KNOWN", x.about(1, 1), 0);
     }
 }

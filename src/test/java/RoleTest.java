@@ -4,6 +4,7 @@ final class RoleTest {
 
     public static void main(String[] args) {
         takersAreGone();
+        mainOneLeadsTwice();
         oldTakenDoesNotCount();
         slotTicksAreGone();
         toldIsGone();
@@ -21,8 +22,6 @@ final class RoleTest {
         logTellsWhatWasNotAccepted();
         wantedPromisesHoldBack();
         fullWindowWantsNothing();
-        noMembersForASlot();
-        nothingWaitsBehindTheLastSlot();
         acceptIsAPromise();
         due.end("RoleTest");
     }
@@ -50,6 +49,24 @@ final class RoleTest {
         Due.deliverTo(x, 1, 3);
         Due.deliverTo(x, 0, 4);
         due.same("now with 16", x.about(0, 0), 1);
+    }
+
+    /** Main 0 is silent, which main 1, LEADING once more, takes neither for a yes nor for gone. */
+    private static void mainOneLeadsTwice() {
+        CheapVotes x = new CheapVotes(3);
+        for (int k = 0; k < 2; k++) {
+            x.campaign(1);
+            Due.deliverAll(x);
+        }
+        due.same("LEADING", x.about(1, 1), 2);
+        x.submit(1, 5);
+        Due.deliverTo(x, 2, 3);
+        Due.deliverTo(x, 1, 4);
+        due.same("main 0 did not take it", x.about(1, 0), 0);
+        Due.loseAll(x);
+        Due.ticks(x, 4);
+        due.same("main 0 goes", x.accepted(1, 1, 1), -1);
+        due.same("main 2 does not", x.accepted(1, 2, 0), 0);
     }
 
     private static void oldTakenDoesNotCount() {
@@ -214,14 +231,15 @@ final class RoleTest {
         due.same("main 2 goes", x.accepted(0, 4, 1), -3);
     }
 
-    /** Main 1 leads, and its LOG has slot 1, by which main 2 goes, but not slot 0. */
+    /** Main 1 leads, and its LOG has slots 1 and 2, by which mains 2 and 3 go, but not slot 0. */
     private static void goingInTheLogDoesNotWait() {
-        CheapVotes x = Due.led(3);
+        CheapVotes x = Due.led(4);
         x.crash(2, true);
+        x.crash(3, true);
         x.submit(0, 7);
         x.run(4);
-        while (x.about(0, 7) < 2) {
-            if (!Due.deliverTo(x, 1, 3) && !Due.deliverTo(x, 3, 3) && !Due.deliverTo(x, 4, 3)
+        while (x.about(0, 7) < 3) {
+            if (!Due.deliverTo(x, 1, 3) && !Due.deliverTo(x, 4, 3) && !Due.deliverTo(x, 5, 3)
                     && !Due.deliverTo(x, 0, 4)) {
                 x.tick();
             }
@@ -230,14 +248,17 @@ final class RoleTest {
         due.same("main 1 knows nothing", x.about(1, 7), 0);
         x.campaign(1);
         Due.deliverTo(x, 0, 1);
-        due.same("slot 0 is lost", x.message(1, 4), 0);
-        x.lose(1);
+        due.same("slot 0 is lost", x.message(2, 4), 0);
+        x.lose(2);
         Due.deliverAll(x);
         due.same("gap", x.about(1, 0), 0);
         due.same("slot 1", x.decided(1, 1), -3);
+        due.same("slot 2", x.decided(1, 2), -4);
         Due.ticks(x, 3);
-        Due.deliverTo(x, 3, 1);
-        Due.deliverTo(x, 1, 2);
+        for (int spare = 4; spare <= 5; spare++) {
+            Due.deliverTo(x, spare, 1);
+            Due.deliverTo(x, 1, 2);
+        }
         due.same("LEADING", x.about(1, 1), 2);
         due.same("slot 0 anew", x.accepted(1, 0, 0), 9);
         Due.deliverTo(x, 0, 3);
@@ -245,8 +266,8 @@ final class RoleTest {
         Due.loseAll(x);
         Due.ticks(x, 4);
         due.same("slot 0 is open", x.about(1, 0), 0);
-        due.same("main 2 does not wait to go again", x.about(1, 6), 0);
-        due.same("nor is PROPOSED", x.accepted(1, 2, 0), 0);
+        due.same("nobody waits to go again", x.about(1, 6), 0);
+        due.same("nor is PROPOSED", x.accepted(1, 3, 0), 0);
     }
 
     private static void laterGoingStandsBeforeWhatWaits() {
@@ -457,59 +478,6 @@ final class RoleTest {
         for (int i = 0; i < 8; i++) {
             due.same("ACCEPT", x.message(i, 2), 3);
         }
-    }
-
-    /** Slot 1 takes out main 1, slot 3 main 0: for slot 7 there is no QUORUM. */
-    private static void noMembersForASlot() {
-        CheapVotes x = Due.led(2);
-        x.crash(1, true);
-        x.submit(0, 7);
-        x.run(8);
-        Due.loseAll(x);
-        x.crash(1, false);
-        x.submit(1, 8);
-        x.campaign(1);
-        Due.deliverTo(x, 0, 1);
-        Due.deliverTo(x, 1, 5);
-        Due.deliverTo(x, 1, 2);
-        due.same("LEADING by both mains", x.about(1, 1), 2);
-        x.crash(0, true);
-        for (int k = 0; k < 60 && x.about(1, 0) < 4; k++) {
-            x.run(1);
-        }
-        int[] row = {7, -2, 8, -1};
-        for (int s = 0; s < row.length; s++) {
-            due.same("slot " + s, x.decided(1, s), row[s]);
-        }
-        due.same("MEMBERS for 4", x.members(1, 4), 3);
-        due.same("MEMBERS for 6", x.members(1, 6), 1);
-        due.same("MEMBERS for 7", x.members(1, 7), 0);
-        Due.loseAll(x);
-        for (int k = 0; k < 4; k++) {
-            x.submit(1, 31 + k);
-        }
-        due.same("slots 5 and 6 are for main 0 alone", x.message(x.way() - 1, 4), 6);
-        due.same("nothing for slot 7", x.accepted(1, 7, 0), 0);
-        due.same("slot 4 was filled before", x.accepted(1, 4, 1), 0);
-        due.same("so two wait", x.about(1, 6), 2);
-    }
-
-    private static void nothingWaitsBehindTheLastSlot() {
-        CheapVotes x = Due.led(2);
-        for (int k = 1; k <= 98; k++) {
-            x.submit(0, k);
-            Due.deliverAll(x);
-        }
-        x.crash(1, true);
-        x.submit(0, 99);
-        x.run(12);
-        due.same("KNOWN", x.about(0, 0), 100);
-        due.same("main 1 goes by the last slot", x.decided(0, 99), -2);
-        due.same("MEMBERS for 102", x.members(0, 102), 3);
-        due.same("MEMBERS for 103", x.members(0, 103), 1);
-        due.same("0 waits", x.about(0, 6), 1);
-        Due.ticks(x, 5);
-        due.same("once", x.about(0, 6), 1);
     }
 
     private static void acceptIsAPromise() {
