@@ -161,7 +161,8 @@ final class Due {
     }
 
     void end(String test) {
-        System.out.println(test + ": " + (checked - wrong) + " of " + checked + " answers are as due");
+        int right = checked - wrong;
+        System.out.println(test + ": " + right + " of " + checked + " answers are as due");
         if (wrong != 0) {
             System.exit(1);
         }

@@ -47,7 +47,7 @@ final class Part2MessagesTest {
         due.same("lost", x.lost(), 3);
     }
 
-    /** Main 0 is the only MEMBER: its ACCEPT and TAKEN come within the call, with 300 on the way. */
+    /** Main 0 is the only MEMBER: ACCEPT and TAKEN come within the call, with 300 on the way. */
     private static void toItselfComesBeforeAllElse() {
         CheapVotes x = Due.led(2);
         x.crash(1, true);

@@ -64,7 +64,7 @@ final class Part3TickTest {
     }
 
     /**
-     * Main 0 of 3 is LEADING by 0, 1 and 3 so many ticks behind its 3rd one, and idle for some more.
+     * Main 0 of 3 is LEADING by 0, 1 and 3 some ticks behind its 3rd one, and idle for some more.
      * Main 1 goes by slot 1; the first slot that is free, 5, wants promises then. PREPARE goes at
      * each 3rd tick from the campaign on.
      */
@@ -94,7 +94,8 @@ final class Part3TickTest {
                     x.tick();
                     ticks++;
                     int n = Scenes.count(x, 1);
-                    due.same("tick " + ticks + " of " + late + ", " + idle, n, ticks % 3 == 0 ? 2 : 0);
+                    String what = "tick " + ticks + " with " + late + " and " + idle;
+                    due.same(what, n, ticks % 3 == 0 ? 2 : 0);
                     due.same("to main 2", Scenes.countTo(x, 2, 1), n / 2);
                     due.same("to spare 4", Scenes.countTo(x, 4, 1), n / 2);
                 }

@@ -12,11 +12,13 @@ final class Promise15Test {
 
     private static void noSuchMain() {
         for (int mains = 2; mains <= 5; mains++) {
-            due.same("the last main", new CheapVotes(mains).members(mains - 1, 3), (1 << mains) - 1);
+            CheapVotes x = new CheapVotes(mains);
+            due.same("the last main", x.members(mains - 1, 3), (1 << mains) - 1);
         }
         int[] nodes = {-1, 3, 4, 5, Integer.MIN_VALUE, Integer.MAX_VALUE};
         for (int node : nodes) {
-            due.refusedLeaves("members at " + node, Due.INDEX, Scenes::busy, x -> x.members(node, 0));
+            due.refusedLeaves("members at " + node, Due.INDEX, Scenes::busy,
+                x -> x.members(node, 0));
         }
     }
 

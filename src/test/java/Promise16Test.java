@@ -1,11 +1,11 @@
-/** Promise 16, lost: what found 300 on the way, of every kind, and nothing else. */
+/** Promise 16, lost: what found 300 on the way, and nothing else. */
 final class Promise16Test {
     private static final Due due = new Due();
 
     public static void main(String[] args) {
         roomForSome();
         notByOtherCalls();
-        everyKindCanBeLost();
+        asManyAsFindNoRoom();
         due.end("Promise16Test");
     }
 
@@ -41,7 +41,7 @@ final class Promise16Test {
         due.same("an answer with room", x.lost(), 0);
     }
 
-    private static void everyKindCanBeLost() {
+    private static void asManyAsFindNoRoom() {
         // DECIDED: main 0 tells its LOG of three slots and promises, with room for two.
         CheapVotes x = Due.led(2);
         for (int k = 5; k <= 7; k++) {
@@ -59,7 +59,7 @@ final class Promise16Test {
         due.same("DECIDED of slot 1", x.message(299, 4), 1);
         due.same("the last on the way", x.message(299, 2), 5);
 
-        // ACCEPT and FORGET.
+        // ACCEPTs, at once and by ticks.
         CheapVotes y = Due.led(2);
         y.submit(0, 5);
         Scenes.fill(y, 300);

@@ -41,7 +41,8 @@ final class Promise3Test {
         }
         int[] nodes = {-1, 3, 4, 5, Integer.MIN_VALUE, Integer.MAX_VALUE};
         for (int node : nodes) {
-            due.refusedLeaves("campaign of " + node, Due.INDEX, Scenes::busy, x -> x.campaign(node));
+            due.refusedLeaves("campaign of " + node, Due.INDEX, Scenes::busy,
+                x -> x.campaign(node));
         }
     }
 

@@ -56,8 +56,8 @@ final class Scenes {
     }
 
     /**
-     * Main 2 of 3 was crashed and goes by slot 1; main 0, which leads, and main 1 know slots 0 .. 4.
-     * Main 2 is there again and knows so many of these; nothing is on the way.
+     * Main 2 of 3 was crashed and went by slot 1; mains 0 and 1 know slots 0 .. 4. Main 2 is there
+     * again, asks main 0 with BALLOT 10 and so knows so many of these; nothing is on the way.
      */
     static CheapVotes mainTwoGoes(int knownByTwo) {
         CheapVotes x = Due.led(3);
@@ -98,7 +98,7 @@ final class Scenes {
         return x;
     }
 
-    /** Main 0 of 3 leads, main 2 is crashed and goes by slot 1; mains 0 and 1 know so many slots. */
+    /** Main 0 of 3 leads, main 2 is crashed and goes by slot 1; mains 0 and 1 know so many. */
     static CheapVotes mainTwoIsGoing(int known) {
         CheapVotes x = Due.led(3);
         x.crash(2, true);
