@@ -160,6 +160,28 @@ final class Due {
         return false;
     }
 
+    /** Delivers the first message of this kind from one node to another; there must be one. */
+    void deliverFrom(CheapVotes x, int from, int to, int kind) {
+        for (int i = 0; i < x.way(); i++) {
+            if (x.message(i, 0) == from && x.message(i, 1) == to && x.message(i, 2) == kind) {
+                x.deliver(i);
+                return;
+            }
+        }
+        same("messages of kind " + kind + " from " + from + " to " + to, 0, 1);
+    }
+
+    /** Delivers the first message of this kind to this node for this slot; there must be one. */
+    void deliverSlot(CheapVotes x, int to, int kind, int slot) {
+        for (int i = 0; i < x.way(); i++) {
+            if (x.message(i, 1) == to && x.message(i, 2) == kind && x.message(i, 4) == slot) {
+                x.deliver(i);
+                return;
+            }
+        }
+        same("messages of kind " + kind + " to " + to + " for " + slot, 0, 1);
+    }
+
     void end(String test) {
         int right = checked - wrong;
         System.out.println(test + ": " + right + " of " + checked + " answers are as due");

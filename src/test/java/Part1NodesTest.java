@@ -15,6 +15,8 @@ final class Part1NodesTest {
         ballotAboveItsOwn();
         leadingTillItIsNoMember();
         preparingTillItIsNoMember();
+        eachMainCanGo();
+        keptByACrash();
         due.end("Part1NodesTest");
     }
 
@@ -153,14 +155,8 @@ final class Part1NodesTest {
     }
 
     private static void deliverAccept(CheapVotes x, int to, int slot) {
-        for (int i = 0; i < x.way(); i++) {
-            if (x.message(i, 1) == to && x.message(i, 2) == 3 && x.message(i, 4) == slot) {
-                x.deliver(i);
-                Due.deliverTo(x, 1, 4);
-                return;
-            }
-        }
-        due.same("no ACCEPT to " + to + " for " + slot, 0, 1);
+        due.deliverSlot(x, to, 3, slot);
+        Due.deliverTo(x, 1, 4);
     }
 
     private static void aMemberIsAmongThem() {
@@ -309,5 +305,61 @@ final class Part1NodesTest {
         due.same("KNOWN", x.about(2, 0), 5);
         due.same("no MEMBER for 5", x.about(2, 1), 0);
         due.same("BALLOT", x.about(2, 2), 0);
+    }
+
+    /** - 1 - x: main x goes, whichever it is. */
+    private static void eachMainCanGo() {
+        for (int mains = 2; mains <= 5; mains++) {
+            int all = (1 << mains) - 1;
+            for (int gone = 0; gone < mains; gone++) {
+                int leader = (gone + 1) % mains;
+                CheapVotes x = new CheapVotes(mains);
+                x.campaign(leader);
+                Due.deliverAll(x);
+                x.crash(gone, true);
+                x.submit(leader, 7);
+                x.run(50);
+                String what = "main " + gone + " of " + mains;
+                due.same(what, x.decided(leader, 1), -1 - gone);
+                due.same(what, x.members(leader, 4), all);
+                due.same(what, x.members(leader, 5), all & ~(1 << gone));
+            }
+        }
+    }
+
+    /** PROMISED, LOW, what is ACCEPTED, the LOG and what waits are kept; a ROLE is gone. */
+    private static void keptByACrash() {
+        CheapVotes x = Due.led(2);
+        x.submit(0, 5);
+        Due.ticks(x, 3);
+        Due.deliverAll(x);
+        x.tick();
+        Due.deliverAll(x);
+        x.submit(0, 6);
+        Due.ticks(x, 3);
+        Due.deliverTo(x, 2, 3);
+        Due.loseAll(x);
+        x.submit(1, 9);
+        int[][] kept = {{1, 0, 0, 8, 0, 2, 0, 1}, {1, 0, 0, 8, 0, 1, 1, 1},
+            {0, 0, 0, 8, 1, 1, 0, 0}};
+        due.same("LEADING", x.about(0, 1), 2);
+        boolean[] calls = {true, false};
+        for (boolean on : calls) {
+            for (int node = 0; node < 3; node++) {
+                x.crash(node, on);
+            }
+            for (int node = 0; node < 3; node++) {
+                for (int k = 0; k < 8; k++) {
+                    due.same("about(" + node + ", " + k + ")", x.about(node, k), kept[node][k]);
+                }
+            }
+            due.same("LOG of main 0", x.decided(0, 0), 5);
+            due.same("LOG of main 1", x.decided(1, 0), 5);
+            due.same("ACCEPTED by the spare", x.accepted(2, 1, 0), 8);
+            due.same("ACCEPTED by the spare", x.accepted(2, 1, 1), 6);
+        }
+        due.same("9 waits still", x.submit(1, 10), 2);
+        Due.ticks(x, 6);
+        due.same("nobody leads", x.way(), 0);
     }
 }

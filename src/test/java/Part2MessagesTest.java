@@ -49,13 +49,9 @@ final class Part2MessagesTest {
 
     /** Main 0 is the only MEMBER: ACCEPT and TAKEN come within the call, with 300 on the way. */
     private static void toItselfComesBeforeAllElse() {
-        CheapVotes x = Due.led(2);
-        x.crash(1, true);
-        x.submit(0, 7);
-        x.run(40);
+        CheapVotes x = Scenes.mainOneIsOut();
         int known = x.about(0, 0);
         due.same("alone", x.members(0, known), 1);
-        Due.loseAll(x);
         x.submit(0, 8);
         Scenes.fill(x, 300);
         int came = x.about(0, 8);
@@ -134,11 +130,7 @@ final class Part2MessagesTest {
 
     /** The spare's LOW is 5; main 1 went and knows slots 0 .. 3. */
     private static void promiseAboveKnown() {
-        CheapVotes x = Due.led(2);
-        x.crash(1, true);
-        x.submit(0, 7);
-        x.run(40);
-        Due.loseAll(x);
+        CheapVotes x = Scenes.mainOneIsOut();
         due.same("LOW", x.about(2, 4), 5);
         x.crash(1, false);
         x.campaign(1);
@@ -160,45 +152,35 @@ final class Part2MessagesTest {
         due.onWay("but it promised", x, Due.mail(1, 0, 1, 9, 4, 0));
     }
 
-    private static void deliverFrom(CheapVotes x, int from, int to, int kind) {
-        for (int i = 0; i < x.way(); i++) {
-            if (x.message(i, 0) == from && x.message(i, 1) == to && x.message(i, 2) == kind) {
-                x.deliver(i);
-                return;
-            }
-        }
-        due.same("no kind " + kind + " from " + from + " to " + to, 0, 1);
-    }
-
     /** Main 2 promises 8, hears that 6 is decided, and promises 8 once more. */
     private static void theLatestPromiseCounts() {
         CheapVotes x = new CheapVotes(3);
         x.campaign(0);
         Due.ticks(x, 3);
         x.repeat(1);
-        deliverFrom(x, 0, 2, 1);
-        deliverFrom(x, 2, 0, 2);
+        due.deliverFrom(x, 0, 2, 1);
+        due.deliverFrom(x, 2, 0, 2);
         // This PROMISE comes last of all.
-        deliverFrom(x, 0, 3, 1);
+        due.deliverFrom(x, 0, 3, 1);
         x.campaign(1);
         Due.ticks(x, 3);
         for (int spare = 3; spare <= 4; spare++) {
-            deliverFrom(x, 1, spare, 1);
-            deliverFrom(x, spare, 1, 2);
+            due.deliverFrom(x, 1, spare, 1);
+            due.deliverFrom(x, spare, 1, 2);
         }
         x.submit(1, 6);
         Due.ticks(x, 3);
         for (int spare = 3; spare <= 4; spare++) {
-            deliverFrom(x, 1, spare, 3);
-            deliverFrom(x, spare, 1, 4);
+            due.deliverFrom(x, 1, spare, 3);
+            due.deliverFrom(x, spare, 1, 4);
         }
         due.same("main 1 and the spares", x.decided(1, 0), 6);
-        deliverFrom(x, 1, 2, 5);
-        deliverFrom(x, 0, 2, 1);
-        deliverFrom(x, 2, 0, 2);
+        due.deliverFrom(x, 1, 2, 5);
+        due.deliverFrom(x, 0, 2, 1);
+        due.deliverFrom(x, 2, 0, 2);
         due.same("0 and 2 are no QUORUM", x.about(0, 1), 1);
         due.same("waits", x.submit(0, 5), 1);
-        deliverFrom(x, 3, 0, 2);
+        due.deliverFrom(x, 3, 0, 2);
         due.same("LEADING by 0, 2 and 3", x.about(0, 1), 2);
         due.same("BALLOT", x.about(0, 2), 8);
         due.same("what the latest PROMISE tells", x.accepted(0, 0, 1), 6);
@@ -246,23 +228,13 @@ final class Part2MessagesTest {
         return x;
     }
 
-    private static void deliverSlot(CheapVotes x, int to, int kind, int slot) {
-        for (int i = 0; i < x.way(); i++) {
-            if (x.message(i, 1) == to && x.message(i, 2) == kind && x.message(i, 4) == slot) {
-                x.deliver(i);
-                return;
-            }
-        }
-        due.same("no kind " + kind + " to " + to + " for " + slot, 0, 1);
-    }
-
     /** Mains 0 and 1 know slots 0 and 1, and FORGET 2 is on the way. */
     private static void forgetTwoGoes(CheapVotes x) {
         for (int s = 0; s < 2; s++) {
-            deliverSlot(x, 1, 3, s);
-            deliverSlot(x, 0, 4, s);
-            deliverSlot(x, 1, 5, s);
-            deliverSlot(x, 0, 6, s + 1);
+            due.deliverSlot(x, 1, 3, s);
+            due.deliverSlot(x, 0, 4, s);
+            due.deliverSlot(x, 1, 5, s);
+            due.deliverSlot(x, 0, 6, s + 1);
         }
         x.tick();
         due.same("FORGET", Scenes.countTo(x, 2, 7), 1);
@@ -272,18 +244,18 @@ final class Part2MessagesTest {
     private static void acceptAtLow() {
         CheapVotes x = spareIsAsked();
         forgetTwoGoes(x);
-        deliverSlot(x, 2, 7, 2);
+        due.deliverSlot(x, 2, 7, 2);
         due.same("LOW", x.about(2, 4), 2);
         due.same("PROMISED", x.about(2, 3), 0);
         int way = x.way();
-        deliverSlot(x, 2, 3, 1);
+        due.deliverSlot(x, 2, 3, 1);
         due.same("no TAKEN", x.way(), way - 1);
         due.same("slot 1", x.accepted(2, 1, 0), 0);
         due.same("slot 1", x.accepted(2, 1, 1), 0);
         due.same("keeps nothing", x.about(2, 5), 0);
         due.same("PROMISED", x.about(2, 3), 8);
         way = x.way();
-        deliverSlot(x, 2, 3, 2);
+        due.deliverSlot(x, 2, 3, 2);
         due.same("TAKEN", x.way(), way);
         due.same("TAKEN", x.message(way - 1, 2), 4);
         due.same("slot 2", x.accepted(2, 2, 0), 8);
@@ -295,27 +267,27 @@ final class Part2MessagesTest {
     private static void forgetAtLow() {
         CheapVotes x = spareIsAsked();
         for (int s = 0; s < 4; s++) {
-            deliverSlot(x, 2, 3, s);
+            due.deliverSlot(x, 2, 3, s);
         }
         due.same("keeps four", x.about(2, 5), 4);
         // Slot 0 alone is decided first, so that a FORGET 1 is on the way, too.
-        deliverSlot(x, 1, 3, 0);
-        deliverSlot(x, 0, 4, 0);
-        deliverSlot(x, 1, 5, 0);
-        deliverSlot(x, 0, 6, 1);
+        due.deliverSlot(x, 1, 3, 0);
+        due.deliverSlot(x, 0, 4, 0);
+        due.deliverSlot(x, 1, 5, 0);
+        due.deliverSlot(x, 0, 6, 1);
         x.tick();
-        deliverSlot(x, 1, 3, 1);
-        deliverSlot(x, 0, 4, 1);
-        deliverSlot(x, 1, 5, 1);
-        deliverSlot(x, 0, 6, 2);
+        due.deliverSlot(x, 1, 3, 1);
+        due.deliverSlot(x, 0, 4, 1);
+        due.deliverSlot(x, 1, 5, 1);
+        due.deliverSlot(x, 0, 6, 2);
         x.tick();
         due.same("two FORGETs", Scenes.countTo(x, 2, 7), 2);
         repeatForget(x, 2);
-        deliverSlot(x, 2, 7, 2);
+        due.deliverSlot(x, 2, 7, 2);
         keepsTwoAndThree(x);
-        deliverSlot(x, 2, 7, 1);
+        due.deliverSlot(x, 2, 7, 1);
         keepsTwoAndThree(x);
-        deliverSlot(x, 2, 7, 2);
+        due.deliverSlot(x, 2, 7, 2);
         keepsTwoAndThree(x);
     }
 
@@ -341,12 +313,12 @@ final class Part2MessagesTest {
     /** TAKEN for what is in the LOG already: no DECIDED once more. */
     private static void takenOnce() {
         CheapVotes x = spareIsAsked();
-        deliverSlot(x, 2, 3, 0);
-        deliverSlot(x, 1, 3, 0);
-        deliverSlot(x, 0, 4, 0);
+        due.deliverSlot(x, 2, 3, 0);
+        due.deliverSlot(x, 1, 3, 0);
+        due.deliverSlot(x, 0, 4, 0);
         due.same("decided", x.decided(0, 0), 5);
         int way = x.way();
-        deliverSlot(x, 0, 4, 0);
+        due.deliverSlot(x, 0, 4, 0);
         due.same("nothing goes", x.way(), way - 1);
         due.same("one DECIDED", Scenes.count(x, 5), 1);
     }
@@ -355,15 +327,15 @@ final class Part2MessagesTest {
     private static void toldKeepsTheGreatest() {
         CheapVotes x = spareIsAsked();
         for (int s = 0; s < 2; s++) {
-            deliverSlot(x, 1, 3, s);
-            deliverSlot(x, 0, 4, s);
-            deliverSlot(x, 1, 5, s);
+            due.deliverSlot(x, 1, 3, s);
+            due.deliverSlot(x, 0, 4, s);
+            due.deliverSlot(x, 1, 5, s);
         }
-        deliverSlot(x, 0, 6, 2);
-        deliverSlot(x, 0, 6, 1);
+        due.deliverSlot(x, 0, 6, 2);
+        due.deliverSlot(x, 0, 6, 1);
         x.tick();
         due.same("FORGET", Scenes.countTo(x, 2, 7), 1);
-        deliverSlot(x, 2, 7, 2);
+        due.deliverSlot(x, 2, 7, 2);
     }
 
     private static void fourSlotsFromKnownOn() {
@@ -443,7 +415,7 @@ final class Part2MessagesTest {
         for (int s = 0; s < 4; s++) {
             x.submit(other, 5 + s);
         }
-        deliverSlot(x, main, 3, slot);
+        due.deliverSlot(x, main, 3, slot);
         Due.loseAll(x);
         x.crash(other, true);
         x.submit(main, 60);

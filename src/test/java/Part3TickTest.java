@@ -69,6 +69,7 @@ final class Part3TickTest {
      * each 3rd tick from the campaign on.
      */
     private static void leadingAllItsTicksCount() {
+        int both = 0;
         for (int late = 0; late < 3; late++) {
             for (int idle = 0; idle < 3; idle++) {
                 CheapVotes x = new CheapVotes(3);
@@ -98,9 +99,14 @@ final class Part3TickTest {
                     due.same(what, n, ticks % 3 == 0 ? 2 : 0);
                     due.same("to main 2", Scenes.countTo(x, 2, 1), n / 2);
                     due.same("to spare 4", Scenes.countTo(x, 4, 1), n / 2);
+                    if (n > 0 && Scenes.count(x, 3) > 0) {
+                        both++;
+                        due.same("PREPAREs stand before ACCEPTs", x.message(1, 2), 1);
+                    }
                 }
             }
         }
+        due.same("PREPAREs and ACCEPTs at one tick", Math.min(both, 1), 1);
     }
 
     private static int ticksTillSlotFourIsProposed(CheapVotes x) {
@@ -183,14 +189,8 @@ final class Part3TickTest {
     }
 
     private static void deliverAccept(CheapVotes x, int to, int slot) {
-        for (int i = 0; i < x.way(); i++) {
-            if (x.message(i, 1) == to && x.message(i, 2) == 3 && x.message(i, 4) == slot) {
-                x.deliver(i);
-                Due.deliverTo(x, 0, 4);
-                return;
-            }
-        }
-        due.same("no ACCEPT to " + to + " for " + slot, 0, 1);
+        due.deliverSlot(x, to, 3, slot);
+        Due.deliverTo(x, 0, 4);
     }
 
     /** The 4th tick of slot n comes one behind that of slot n - 1. */

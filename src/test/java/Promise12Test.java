@@ -5,6 +5,7 @@ final class Promise12Test {
     public static void main(String[] args) {
         noSuchMain();
         slotThatItDoesNotKnow();
+        eachMainItsOwn();
         behindAGap();
         lastSlot();
         nothingIsACommand();
@@ -70,5 +71,19 @@ final class Promise12Test {
         }
         due.same("slot 2 at main 2", x.decided(2, 2), 0);
         due.refused("slot 3 at main 2", Due.INDEX, () -> x.decided(2, 3));
+    }
+
+    private static void eachMainItsOwn() {
+        for (int main = 0; main < 2; main++) {
+            int other = 1 - main;
+            CheapVotes x = new CheapVotes(2);
+            x.campaign(main);
+            Due.deliverAll(x);
+            x.submit(main, 5);
+            x.deliver(0);
+            x.deliver(0);
+            due.same("main " + main + " knows", x.decided(main, 0), 5);
+            due.refused("main " + other + " does not", Due.INDEX, () -> x.decided(other, 0));
+        }
     }
 }

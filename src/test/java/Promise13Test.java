@@ -8,6 +8,7 @@ final class Promise13Test {
         whatThereIsNot();
         sparesHaveNoLog();
         edgesOfTheCounts();
+        whatCameWhileItWasCrashed();
         due.end("Promise13Test");
     }
 
@@ -77,5 +78,26 @@ final class Promise13Test {
         due.same("20 wait", Scenes.waiting(20).about(1, 6), 20);
         due.same("the greatest BALLOT", Scenes.campaigned(1000).about(0, 2), 8000);
         due.same("PROMISED", Scenes.campaigned(1000).about(0, 3), 8000);
+    }
+
+    private static void whatCameWhileItWasCrashed() {
+        for (int node = 1; node < 3; node++) {
+            CheapVotes x = new CheapVotes(2);
+            x.campaign(0);
+            Due.ticks(x, 3);
+            x.crash(node, true);
+            due.same("PREPARE", Due.deliverTo(x, node, 1) ? 1 : 0, 1);
+            due.same("to a crashed one", x.about(node, 8), 0);
+            x.crash(node, false);
+            due.same("nor behind that", x.about(node, 8), 0);
+        }
+        CheapVotes x = new CheapVotes(2);
+        x.campaign(0);
+        x.repeat(0);
+        x.deliver(0);
+        x.crash(1, true);
+        due.same("what came before counts", x.about(1, 8), 1);
+        x.deliver(0);
+        due.same("and no more", x.about(1, 8), 1);
     }
 }

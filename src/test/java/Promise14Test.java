@@ -7,6 +7,7 @@ final class Promise14Test {
         lastSlot();
         whatThereIsNot();
         forgottenIsNone();
+        theLatestIsKept();
         due.end("Promise14Test");
     }
 
@@ -57,5 +58,26 @@ final class Promise14Test {
         due.same("LOW", x.about(2, 4), 1);
         due.same("below LOW", x.accepted(2, 0, 0), 0);
         due.same("below LOW", x.accepted(2, 0, 1), 0);
+    }
+
+    /** Main 0 has 5 with 8; main 1 leads with 9 by the spare, and PROPOSES 6 for the same slot. */
+    private static void theLatestIsKept() {
+        CheapVotes x = Due.led(2);
+        x.submit(0, 5);
+        Due.loseAll(x);
+        x.crash(0, true);
+        x.campaign(1);
+        x.run(4);
+        x.run(1);
+        due.same("LEADING", x.about(1, 1), 2);
+        Due.loseAll(x);
+        x.submit(1, 6);
+        due.same("8 for now", x.accepted(0, 0, 0), 8);
+        due.same("5 for now", x.accepted(0, 0, 1), 5);
+        x.crash(0, false);
+        Due.deliverTo(x, 0, 3);
+        due.same("the latest BALLOT", x.accepted(0, 0, 0), 9);
+        due.same("its command", x.accepted(0, 0, 1), 6);
+        due.same("one slot", x.about(0, 5), 1);
     }
 }

@@ -7,6 +7,7 @@ final class Promise6Test {
         notOnTheWay();
         threeHundred();
         tellsTheSame();
+        sameInAll();
         due.end("Promise6Test");
     }
 
@@ -60,5 +61,37 @@ final class Promise6Test {
         x.lose(0);
         x.deliver(0);
         due.onWay("told by the repeated one", x, Due.mail(1, 0, 3, 9, 0, 5));
+    }
+
+    /** From, to, kind, BALLOT, slot and command of both are the same, for every kind. */
+    private static void sameInAll() {
+        CheapVotes x = Scenes.known(2, 1);
+        x.submit(0, 9);
+        twice("ACCEPT", x, Due.mail(0, 1, 3, 8, 1, 9));
+        twice("TAKEN", x, Due.mail(1, 0, 4, 8, 1, 0));
+        twice("DECIDED", x, Due.mail(0, 1, 5, 0, 1, 9));
+        twice("TOLD", x, Due.mail(1, 0, 6, 0, 2, 0));
+        x.campaign(0);
+        twice("PREPARE", x, Due.mail(0, 1, 1, 16, 2, 0));
+        twice("PROMISE", x, Due.mail(1, 0, 2, 16, 0, 0));
+        x.campaign(1);
+        x.campaign(0);
+        x.lose(1);
+        x.deliver(0);
+        twice("REFUSED", x, Due.mail(0, 1, 8, 24, 0, 0));
+        CheapVotes y = Due.led(2);
+        y.submit(0, 5);
+        Due.ticks(y, 3);
+        Due.deliverAll(y);
+        y.tick();
+        twice("FORGET", y, Due.mail(0, 2, 7, 0, 1, 0));
+    }
+
+    /** The only one on the way is repeated, its copy lost, and it comes. */
+    private static void twice(String what, CheapVotes x, int[] row) {
+        due.same(what, x.repeat(0), 2);
+        due.onWay(what, x, row, row);
+        x.lose(0);
+        x.deliver(0);
     }
 }

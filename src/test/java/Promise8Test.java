@@ -8,6 +8,7 @@ final class Promise8Test {
         fiftyRounds();
         threeHundredOnTheWay();
         nothingOnTheWay();
+        deliveriesAndThenATick();
         due.end("Promise8Test");
     }
 
@@ -65,5 +66,32 @@ final class Promise8Test {
         CheapVotes x = new CheapVotes(3);
         due.same("run 1", x.run(1), 0);
         due.same("run 50", x.run(50), 0);
+    }
+
+    /** Promise 8 by promises 4 and 7. */
+    private static void deliveriesAndThenATick() {
+        CheapVotes run = Due.led(4);
+        CheapVotes hand = Due.led(4);
+        CheapVotes[] both = {run, hand};
+        for (CheapVotes x : both) {
+            x.crash(3, true);
+            for (int k = 1; k <= 9; k++) {
+                x.submit(0, k);
+            }
+        }
+        for (int round = 0; round < 30; round++) {
+            int first = hand.way();
+            for (int k = 0; k < first; k++) {
+                hand.deliver(0);
+            }
+            hand.tick();
+            due.same("run", run.run(1), hand.way());
+            for (int node = 0; node < 7; node++) {
+                for (int k = 0; k < 9; k++) {
+                    due.same("about", run.about(node, k), hand.about(node, k));
+                }
+            }
+        }
+        due.same("all nine", run.about(0, 0) >= 9 ? 1 : 0, 1);
     }
 }

@@ -98,6 +98,16 @@ final class Scenes {
         return x;
     }
 
+    /** Main 0 of 2 leads, main 1 is crashed and out, and the spare forgot slots 0 .. 4. */
+    static CheapVotes mainOneIsOut() {
+        CheapVotes x = Due.led(2);
+        x.crash(1, true);
+        x.submit(0, 7);
+        x.run(40);
+        Due.loseAll(x);
+        return x;
+    }
+
     /** Main 0 of 3 leads, main 2 is crashed and goes by slot 1; mains 0 and 1 know so many. */
     static CheapVotes mainTwoIsGoing(int known) {
         CheapVotes x = Due.led(3);
@@ -110,6 +120,26 @@ final class Scenes {
             Due.deliverAll(x);
         }
         return x;
+    }
+
+    /** Main 0 of 2 leads; slot 0 is decided, main 1 TOLD 1, and that is once more on the way. */
+    static CheapVotes lateTold() {
+        CheapVotes x = Due.led(2);
+        x.submit(0, 5);
+        for (int k = 0; k < 3; k++) {
+            x.deliver(0);
+        }
+        x.repeat(0);
+        x.deliver(0);
+        x.tick();
+        return x;
+    }
+
+    /** Main 0 of 2 campaigned: it asks the spare by a tick and leads with it. */
+    static void leadWithSpare(CheapVotes x) {
+        Due.ticks(x, 3);
+        Due.deliverTo(x, 2, 1);
+        Due.deliverTo(x, 0, 2);
     }
 
     /** Main 0 of 2 campaigned so often: its BALLOT is 8 n. */

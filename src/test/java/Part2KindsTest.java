@@ -1,5 +1,5 @@
-/** What each kind of message does, and GOING ON (promises 2, 3, 4 and the terms they rest on). */
-final class MessagesTest {
+/** Part 2, MESSAGES: the kinds 1 to 8 in ordinary runs. */
+final class Part2KindsTest {
     private static final Due due = new Due();
 
     public static void main(String[] args) {
@@ -9,21 +9,21 @@ final class MessagesTest {
         promiseOfAnotherBallot();
         promisesNeedAQuorum();
         promisesWithSpares();
+        promisesAreForKnown();
+        preparingTillAPromiseComes();
+        forgetfulSpareDoesNotCount();
         acceptRefused();
+        acceptIsAPromise();
         acceptBelowLow();
         takenByAll();
         takenWithSpares();
+        takenByMembersForItsSlot();
+        oldTakenDoesNotCount();
         decidedTwiceAndGap();
-        greaterBallotEndsTheRole();
-        toldIsTakenOver();
-        greatestBallotWins();
-        gapGetsNothing();
-        decidedBallotWins();
-        windowOfFour();
-        aloneItDecidesAtOnce();
-        forgetfulSpareDoesNotCount();
-        campaignAgainForgetsProposals();
-        due.end("MessagesTest");
+        toldWhilePreparing();
+        latestToldIsNotTheGreatest();
+        refusedIsNothing();
+        due.end("Part2KindsTest");
     }
 
     private static void prepareRefused() {
@@ -146,6 +146,19 @@ final class MessagesTest {
         }
     }
 
+    /** A main that knows too little cannot lead with a spare that forgot. */
+    private static void forgetfulSpareDoesNotCount() {
+        CheapVotes x = Scenes.mainOneIsOut();
+        due.same("LOW", x.about(2, 4), 5);
+        x.crash(0, true);
+        x.crash(1, false);
+        due.same("campaign", x.campaign(1), 9);
+        x.run(10);
+        due.same("the spare's PROMISED", x.about(2, 3), 9);
+        due.same("not LEADING", x.about(1, 1), 1);
+        due.same("KNOWN", x.about(1, 0), 0);
+    }
+
     private static void acceptRefused() {
         CheapVotes x = Due.led(3);
         x.campaign(1);
@@ -159,6 +172,17 @@ final class MessagesTest {
         x.deliver(3);
         due.same("no more LEADING", x.about(0, 1), 0);
         due.same("what it PROPOSED waits no more", x.about(0, 6), 0);
+    }
+
+    private static void acceptIsAPromise() {
+        CheapVotes x = Due.led(2);
+        x.submit(0, 5);
+        Due.ticks(x, 3);
+        due.same("the spare has not promised", x.about(2, 3), 0);
+        Due.deliverTo(x, 2, 3);
+        due.same("PROMISED", x.about(2, 3), 8);
+        due.same("ACCEPTED", x.accepted(2, 0, 0), 8);
+        due.same("ACCEPTED", x.accepted(2, 0, 1), 5);
     }
 
     /** A spare that forgot a slot neither keeps nor answers what comes late for it. */
@@ -233,6 +257,21 @@ final class MessagesTest {
         due.same("five of nine", x.about(0, 0), 1);
     }
 
+    private static void oldTakenDoesNotCount() {
+        CheapVotes x = Due.led(2);
+        x.submit(0, 5);
+        x.deliver(0);
+        due.onWay("TAKEN with 8", x, Due.mail(1, 0, 4, 8, 0, 0));
+        x.campaign(0);
+        x.deliver(1);
+        x.deliver(1);
+        due.onWay("and ACCEPT with 16", x, Due.mail(1, 0, 4, 8, 0, 0), Due.mail(0, 1, 3, 16, 0, 5));
+        x.deliver(0);
+        due.same("does not count", x.about(0, 0), 0);
+        Due.deliverAll(x);
+        due.same("decided", x.decided(0, 0), 5);
+    }
+
     private static void decidedTwiceAndGap() {
         CheapVotes x = Due.led(2);
         x.submit(0, 5);
@@ -251,191 +290,104 @@ final class MessagesTest {
         due.same("TOLD both", x.message(2, 4), 2);
     }
 
-    private static void greaterBallotEndsTheRole() {
-        CheapVotes x = Due.led(3);
-        x.submit(0, 5);
+    private static void toldWhilePreparing() {
+        CheapVotes x = Scenes.lateTold();
+        x.campaign(0);
+        due.same("TOLD comes", Due.deliverTo(x, 0, 6) ? 1 : 0, 1);
+        due.same("PREPARING", x.about(0, 1), 1);
+        Scenes.leadWithSpare(x);
         Due.loseAll(x);
-        x.campaign(1);
-        due.same("to main 0", x.message(0, 1), 0);
-        x.deliver(0);
-        due.same("ROLE", x.about(0, 1), 0);
-        due.same("BALLOT", x.about(0, 2), 0);
-        due.same("PROMISED", x.about(0, 3), 9);
-        due.same("waits at one that does not lead", x.submit(0, 6), 1);
-        // One with a BALLOT below its own does not.
-        CheapVotes y = new CheapVotes(2);
-        y.campaign(0);
-        y.campaign(1);
-        y.deliver(0);
-        due.same("still PREPARING", y.about(1, 1), 1);
+        x.tick();
+        due.same("only one that is LEADING keeps it", x.way(), 0);
     }
 
-    private static void toldIsTakenOver() {
-        CheapVotes x = Due.led(3);
-        x.submit(0, 5);
-        x.deliver(0);
-        Due.loseAll(x);
-        x.submit(1, 9);
-        x.campaign(1);
-        Due.deliverTo(x, 2, 1);
-        Due.deliverTo(x, 1, 2);
-        Due.loseAll(x);
-        x.crash(0, true);
-        x.tick();
-        x.tick();
-        x.tick();
-        Due.deliverTo(x, 3, 1);
-        Due.deliverTo(x, 1, 2);
-        due.same("LEADING", x.about(1, 1), 2);
-        due.same("what main 1 itself ACCEPTED", x.accepted(1, 0, 1), 5);
-        due.same("with its own BALLOT", x.accepted(1, 0, 0), 9);
-        due.same("then what waits", x.accepted(1, 1, 1), 9);
-        due.same("nothing waits", x.about(1, 6), 0);
-    }
-
-    private static void greatestBallotWins() {
-        CheapVotes x = Due.led(3);
-        x.submit(0, 5);
-        // Only main 0 has 5 with 8; main 1 leads with 9 by spares, and only it has 6.
-        Due.loseAll(x);
-        x.crash(0, true);
-        x.campaign(1);
-        x.run(3);
-        Due.deliverTo(x, 3, 1);
-        Due.deliverTo(x, 4, 1);
-        Due.deliverTo(x, 1, 2);
-        Due.deliverTo(x, 1, 2);
-        Due.loseAll(x);
-        due.same("LEADING", x.about(1, 1), 2);
-        x.submit(1, 6);
-        Due.loseAll(x);
-        due.same("6 with 9", x.accepted(1, 0, 0), 9);
-        x.crash(0, false);
-        due.same("main 2", x.campaign(2), 10);
-        Due.deliverTo(x, 0, 1);
-        Due.deliverTo(x, 1, 1);
-        Due.deliverAll(x);
-        for (int i = 0; i < 3; i++) {
-            due.same("decided at " + i, x.decided(i, 0), 6);
-        }
-    }
-
-    private static void gapGetsNothing() {
+    private static void latestToldIsNotTheGreatest() {
         CheapVotes x = Due.led(2);
         x.submit(0, 5);
         x.submit(0, 6);
-        // Main 1 has slot 1 alone, and leads with the spare.
+        Due.loseAll(x);
+        Due.ticks(x, 3);
+        while (Due.deliverTo(x, 1, 3) || Due.deliverTo(x, 0, 4) || Due.deliverTo(x, 1, 5)) {
+            due.same("nothing is lost", x.lost(), 0);
+        }
+        while (x.message(0, 2) != 6) {
+            x.lose(0);
+        }
+        due.onWay("TOLD 1 and 2", x, Due.mail(1, 0, 6, 0, 1, 0), Due.mail(1, 0, 6, 0, 2, 0));
         x.deliver(1);
-        Due.loseAll(x);
-        x.crash(0, true);
-        x.submit(1, 8);
+        x.deliver(0);
+        x.tick();
+        due.onWay("k is 2", x, Due.mail(0, 2, 7, 0, 2, 0));
+    }
+
+    /** Main 2 goes by slot 1: with KNOWN 4 it is a MEMBER still, and its PROMISE is wanted. */
+    private static void promisesAreForKnown() {
+        for (int known = 4; known <= 5; known++) {
+            CheapVotes x = Scenes.mainTwoIsGoing(known);
+            due.same("KNOWN", x.about(0, 0), known);
+            x.campaign(0);
+            Due.deliverTo(x, 1, 1);
+            Due.deliverTo(x, 0, 2);
+            due.same("mains 0 and 1 promised", x.about(0, 1), known == 4 ? 1 : 2);
+        }
+    }
+
+    /** What is told makes mains 0 and 1 a QUORUM for KNOWN, but LEADING it is by a PROMISE. */
+    private static void preparingTillAPromiseComes() {
+        CheapVotes x = Scenes.mainOneHearsNothing();
         x.campaign(1);
-        x.run(3);
-        Due.deliverTo(x, 2, 1);
-        Due.deliverTo(x, 1, 2);
+        Due.deliverTo(x, 0, 1);
+        x.repeat(x.way() - 1);
+        due.deliverFrom(x, 0, 1, 2);
+        due.same("mains 0 and 1 of three", x.about(1, 1), 1);
+        due.same("waits", x.submit(1, 50), 1);
+        for (int s = 0; s < 5; s++) {
+            due.deliverSlot(x, 1, 5, s);
+        }
+        due.same("MEMBERS for 5", x.members(1, 5), 3);
+        due.same("still PREPARING", x.about(1, 1), 1);
+        due.same("so 50 waits", x.about(1, 6), 1);
+        due.deliverFrom(x, 0, 1, 2);
         due.same("LEADING", x.about(1, 1), 2);
-        int[] commands = {0, 6, 8, 0};
-        int[] ballots = {9, 9, 9, 0};
-        for (int s = 0; s < 4; s++) {
-            due.same("slot " + s, x.accepted(1, s, 1), commands[s]);
-            due.same("slot " + s, x.accepted(1, s, 0), ballots[s]);
-        }
+        due.same("50 for slot 5", x.accepted(1, 5, 1), 50);
+        due.same("nothing waits", x.about(1, 6), 0);
     }
 
-    private static void decidedBallotWins() {
-        CheapVotes x = Due.led(2);
-        x.submit(0, 5);
-        x.deliver(0);
-        x.deliver(0);
-        // Main 0 knows 5; its DECIDED is lost twice, and its PROMISE tells it.
-        Due.loseAll(x);
+    /** Main 2 goes by slot 1, and KNOWN is 2: it is wanted for slot 4 and not for slot 5. */
+    private static void takenByMembersForItsSlot() {
+        CheapVotes x = Scenes.mainTwoIsGoing(2);
+        for (int k = 0; k < 4; k++) {
+            x.submit(0, 22 + k);
+        }
+        for (int s = 4; s <= 5; s++) {
+            due.deliverSlot(x, 1, 3, s);
+            due.deliverSlot(x, 0, 4, s);
+        }
+        due.refused("mains 0 and 1 of three", Due.INDEX, () -> x.decided(0, 4));
+        due.same("mains 0 and 1 of two", x.decided(0, 5), 25);
+        due.same("KNOWN", x.about(0, 0), 2);
+        due.same("DECIDED to main 1", Scenes.countTo(x, 1, 5), 1);
+        due.same("and to main 2, which is no MEMBER for 5", Scenes.countTo(x, 2, 5), 1);
+    }
+
+    /** REFUSED 9 comes to a main that has 16 meanwhile. */
+    private static void refusedIsNothing() {
+        CheapVotes x = new CheapVotes(2);
+        x.campaign(0);
         x.campaign(1);
         x.deliver(0);
-        due.same("DECIDED", x.message(0, 2), 5);
-        x.lose(0);
-        x.deliver(0);
-        due.onWay("proposed anew", x, Due.mail(1, 0, 3, 9, 0, 5));
-        Due.deliverAll(x);
-        due.same("main 1", x.decided(1, 0), 5);
-    }
-
-    private static void windowOfFour() {
-        CheapVotes x = Due.led(2);
-        for (int k = 1; k <= 6; k++) {
-            x.submit(0, k);
-        }
-        due.same("four are on the way", x.way(), 4);
-        // Slot 3 is decided first: KNOWN stays, so nothing is PROPOSED.
-        x.deliver(3);
-        x.deliver(3);
-        due.same("two wait", x.about(0, 6), 2);
-        x.deliver(0);
-        Due.deliverTo(x, 0, 4);
-        due.same("KNOWN", x.about(0, 0), 1);
-        due.same("one waits", x.about(0, 6), 1);
-        due.same("slot 4", x.accepted(0, 4, 1), 5);
-        int last = x.way() - 1;
-        due.same("ACCEPT behind DECIDED", x.message(last, 2), 3);
-        due.same("DECIDED", x.message(last - 1, 2), 5);
-    }
-
-    /** The last MEMBER is a QUORUM by itself: ACCEPT and TAKEN go to itself. */
-    private static void aloneItDecidesAtOnce() {
-        CheapVotes x = Due.led(2);
-        x.crash(1, true);
-        x.submit(0, 7);
-        x.run(40);
-        due.same("main 1 is out", x.members(0, x.about(0, 0)), 1);
-        Due.loseAll(x);
-        int known = x.about(0, 0);
+        due.same("campaign", x.campaign(0), 16);
+        due.onWay("REFUSED", x, Due.mail(1, 0, 1, 9, 0, 0), Due.mail(1, 0, 8, 9, 0, 0),
+            Due.mail(0, 1, 1, 16, 0, 0));
         int came = x.about(0, 8);
-        due.same("submit", x.submit(0, 9), 0);
-        due.same("decided at once", x.decided(0, known), 9);
-        due.same("ACCEPT and TAKEN", x.about(0, 8), came + 2);
-        due.onWay("all other mains hear of it", x, Due.mail(0, 1, 5, 0, known, 9));
-
-        // All that waits is decided by one campaign, over several windows.
-        Due.loseAll(x);
-        x.crash(0, true);
-        x.crash(0, false);
-        for (int k = 0; k < 20; k++) {
-            due.same("waits", x.submit(0, 100 + k), k + 1);
-        }
-        due.same("campaign", x.campaign(0), 16);
-        due.same("KNOWN", x.about(0, 0), known + 21);
-        due.same("nothing waits", x.about(0, 6), 0);
-        due.same("the last", x.decided(0, known + 20), 119);
-        due.same("DECIDED", x.way(), 20);
-    }
-
-    /** A main that knows too little cannot lead with a spare that forgot. */
-    private static void forgetfulSpareDoesNotCount() {
-        CheapVotes x = Due.led(2);
-        x.crash(1, true);
-        x.submit(0, 7);
-        x.run(40);
-        Due.loseAll(x);
-        due.same("LOW", x.about(2, 4), 5);
-        x.crash(0, true);
-        x.crash(1, false);
-        due.same("campaign", x.campaign(1), 9);
-        x.run(10);
-        due.same("the spare's PROMISED", x.about(2, 3), 9);
-        due.same("not LEADING", x.about(1, 1), 1);
-        due.same("KNOWN", x.about(1, 0), 0);
-    }
-
-    private static void campaignAgainForgetsProposals() {
-        CheapVotes x = Due.led(3);
-        x.submit(0, 5);
-        Due.loseAll(x);
-        due.same("campaign", x.campaign(0), 16);
-        due.same("PREPARING", x.about(0, 1), 1);
-        Due.deliverTo(x, 1, 1);
-        Due.deliverTo(x, 2, 1);
+        due.same("deliver", x.deliver(1), 8);
+        due.same("it came", x.about(0, 8), came + 1);
+        due.same("ROLE", x.about(0, 1), 1);
+        due.same("BALLOT", x.about(0, 2), 16);
+        due.same("PROMISED", x.about(0, 3), 16);
+        due.same("nothing goes", x.way(), 2);
+        x.deliver(1);
         Due.deliverTo(x, 0, 2);
-        due.same("one PROMISE is missing", x.about(0, 1), 1);
-        Due.deliverTo(x, 0, 2);
-        due.onWay("5 once more", x, Due.mail(0, 1, 3, 16, 0, 5), Due.mail(0, 2, 3, 16, 0, 5));
+        due.same("its promises still count", x.about(0, 1), 2);
     }
 }

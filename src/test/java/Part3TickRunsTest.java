@@ -1,24 +1,33 @@
-/** What a TICK does (promises 7 and 8). */
-final class TickTest {
+/** Part 3, A TICK: what it does in ordinary runs. */
+final class Part3TickRunsTest {
     private static final Due due = new Due();
 
     public static void main(String[] args) {
         idleNodesDoNothing();
         prepareAtEachThird();
         prepareWithKnownAsItIsNow();
+        promisedWhateverItsLow();
+        mainsByNumbers();
         leadingWantsPromises();
+        fullWindowWantsNothing();
         acceptAtEachThird();
+        decidedBehindAGap();
+        acceptToMembersForItsSlot();
         silentMainWaitsToGo();
         goingStandsBeforeAllElse();
         goingOnlyOnce();
+        goingInTheLogDoesNotWait();
+        laterGoingStandsBeforeWhatWaits();
         noMemberTakesNobodyOut();
         nothingFillsBehindGoing();
         nothingOnlyWhenNothingElse();
+        goingLearntInAnotherOrder();
         forgetGoesToAskedSpares();
+        askedByPrepareAlone();
         forgetOnlyWhenAbove();
         forgetByWhatMembersTold();
-        roundsAreDeliveriesAndTicks();
-        due.end("TickTest");
+        forgetBeforeWhatGoesOn();
+        due.end("Part3TickRunsTest");
     }
 
     private static void idleNodesDoNothing() {
@@ -142,6 +151,19 @@ final class TickTest {
         return x.decided(node, x.about(node, 0) - 1);
     }
 
+    private static void fullWindowWantsNothing() {
+        CheapVotes x = Due.led(2);
+        for (int k = 1; k <= 4; k++) {
+            x.submit(0, k);
+        }
+        Due.loseAll(x);
+        Due.ticks(x, 3);
+        due.same("two ACCEPTs for each slot", x.way(), 8);
+        for (int i = 0; i < 8; i++) {
+            due.same("ACCEPT", x.message(i, 2), 3);
+        }
+    }
+
     private static void acceptAtEachThird() {
         CheapVotes x = Due.led(3);
         x.submit(0, 5);
@@ -255,6 +277,71 @@ final class TickTest {
         due.same("in its LOG", going, 1);
     }
 
+    /** Main 1 leads, and its LOG has slots 1 and 2, by which mains 2 and 3 go, but not slot 0. */
+    private static void goingInTheLogDoesNotWait() {
+        CheapVotes x = Due.led(4);
+        x.crash(2, true);
+        x.crash(3, true);
+        x.submit(0, 7);
+        x.run(4);
+        while (x.about(0, 7) < 3) {
+            if (!Due.deliverTo(x, 1, 3) && !Due.deliverTo(x, 4, 3) && !Due.deliverTo(x, 5, 3)
+                    && !Due.deliverTo(x, 0, 4)) {
+                x.tick();
+            }
+        }
+        Due.loseAll(x);
+        due.same("main 1 knows nothing", x.about(1, 7), 0);
+        x.campaign(1);
+        Due.deliverTo(x, 0, 1);
+        due.same("slot 0 is lost", x.message(2, 4), 0);
+        x.lose(2);
+        Due.deliverAll(x);
+        due.same("gap", x.about(1, 0), 0);
+        due.same("slot 1", x.decided(1, 1), -3);
+        due.same("slot 2", x.decided(1, 2), -4);
+        Due.ticks(x, 3);
+        for (int spare = 4; spare <= 5; spare++) {
+            Due.deliverTo(x, spare, 1);
+            Due.deliverTo(x, 1, 2);
+        }
+        due.same("LEADING", x.about(1, 1), 2);
+        due.same("slot 0 anew", x.accepted(1, 0, 0), 9);
+        Due.deliverTo(x, 0, 3);
+        Due.deliverTo(x, 1, 4);
+        Due.loseAll(x);
+        Due.ticks(x, 4);
+        due.same("slot 0 is open", x.about(1, 0), 0);
+        due.same("nobody waits to go again", x.about(1, 6), 0);
+        due.same("nor is PROPOSED", x.accepted(1, 3, 0), 0);
+    }
+
+    private static void laterGoingStandsBeforeWhatWaits() {
+        CheapVotes x = Due.led(4);
+        x.submit(0, 1);
+        Due.deliverTo(x, 1, 3);
+        Due.deliverTo(x, 2, 3);
+        Due.deliverTo(x, 0, 4);
+        Due.deliverTo(x, 0, 4);
+        Due.loseAll(x);
+        Due.ticks(x, 4);
+        due.same("main 3 goes", x.accepted(0, 1, 1), -4);
+        int[] waits = {0, 0, 1, 2};
+        for (int k = 0; k < 4; k++) {
+            due.same("submit", x.submit(0, 21 + k), waits[k]);
+        }
+        Due.deliverTo(x, 1, 3);
+        Due.deliverTo(x, 0, 4);
+        Due.loseAll(x);
+        Due.ticks(x, 4);
+        due.same("main 1 and 2 wait to go", x.about(0, 6), 4);
+        Due.ticks(x, 1);
+        Due.deliverAll(x);
+        due.same("main 2 goes first, as main 1 took slot 1", x.decided(0, 4), -3);
+        due.same("then main 1, by slot 2", x.decided(0, 5), -2);
+        due.same("then what was submitted", x.decided(0, 6), 23);
+    }
+
     /** Main 1 leads and PROPOSES that it goes itself; it takes out nobody then. */
     private static void noMemberTakesNobodyOut() {
         CheapVotes x = Due.led(3);
@@ -322,6 +409,41 @@ final class TickTest {
         due.onWay("to both MEMBERS", x, Due.mail(0, 1, 3, 8, 3, 0));
     }
 
+    /** The latest one that goes is that of the last slot, not the one learnt last. */
+    private static void goingLearntInAnotherOrder() {
+        CheapVotes x = Due.led(4);
+        x.crash(2, true);
+        x.crash(3, true);
+        x.submit(0, 7);
+        x.run(4);
+        due.same("slot 1", x.accepted(0, 1, 1), -3);
+        due.same("slot 2", x.accepted(0, 2, 1), -4);
+        while (x.about(0, 7) == 0) {
+            if (!deliverOfSlot(x, 2)) {
+                x.tick();
+            }
+        }
+        due.same("slot 2 first", x.decided(0, 2), -4);
+        for (int k = 0; k < 50; k++) {
+            Due.deliverAll(x);
+            x.tick();
+        }
+        due.same("KNOWN is 2 + 4", x.about(0, 0), 6);
+        due.same("MEMBERS", x.members(0, 6), 3);
+    }
+
+    /** Delivers the first ACCEPT or TAKEN of a slot. */
+    private static boolean deliverOfSlot(CheapVotes x, int slot) {
+        for (int i = 0; i < x.way(); i++) {
+            int kind = x.message(i, 2);
+            if ((kind == 3 || kind == 4) && x.message(i, 4) == slot) {
+                x.deliver(i);
+                return true;
+            }
+        }
+        return false;
+    }
+
     private static void forgetGoesToAskedSpares() {
         CheapVotes x = Due.led(3);
         x.submit(0, 5);
@@ -346,6 +468,19 @@ final class TickTest {
         due.same("not yet", x.about(4, 5), 1);
         due.same("mains keep theirs", x.about(0, 5), 2);
         due.same("mains keep theirs", x.about(0, 4), 0);
+    }
+
+    private static void askedByPrepareAlone() {
+        CheapVotes x = new CheapVotes(2);
+        x.campaign(0);
+        Due.loseAll(x);
+        Scenes.leadWithSpare(x);
+        Due.loseAll(x);
+        x.submit(0, 5);
+        Due.deliverAll(x);
+        due.same("all MEMBERS took it", x.decided(1, 0), 5);
+        x.tick();
+        due.onWay("FORGET", x, Due.mail(0, 2, 7, 0, 1, 0));
     }
 
     private static void forgetOnlyWhenAbove() {
@@ -420,30 +555,84 @@ final class TickTest {
         due.onWay("k is 1", x, Due.mail(0, 3, 7, 0, 1, 0), Due.mail(0, 4, 7, 0, 1, 0));
     }
 
-    /** Promise 8 by promises 4 and 7. */
-    private static void roundsAreDeliveriesAndTicks() {
-        CheapVotes run = Due.led(4);
-        CheapVotes hand = Due.led(4);
-        CheapVotes[] both = {run, hand};
-        for (CheapVotes x : both) {
-            x.crash(3, true);
-            for (int k = 1; k <= 9; k++) {
-                x.submit(0, k);
-            }
+    /** Slot 1 is decided and slot 0 is not: only slot 0 counts. */
+    private static void decidedBehindAGap() {
+        CheapVotes x = Due.led(2);
+        x.submit(0, 5);
+        x.submit(0, 6);
+        due.deliverSlot(x, 1, 3, 1);
+        due.deliverSlot(x, 0, 4, 1);
+        due.same("slot 1", x.decided(0, 1), 6);
+        Due.loseAll(x);
+        Due.ticks(x, 3);
+        due.onWay("slot 0 alone", x, Due.mail(0, 1, 3, 8, 0, 5), Due.mail(0, 2, 3, 8, 0, 5));
+    }
+
+    /** Main 2 goes by slot 1, and KNOWN is 2: it is asked again for slot 4 and not for slot 5. */
+    private static void acceptToMembersForItsSlot() {
+        CheapVotes x = Scenes.mainTwoIsGoing(2);
+        for (int k = 0; k < 4; k++) {
+            x.submit(0, 22 + k);
         }
-        for (int round = 0; round < 30; round++) {
-            int first = hand.way();
-            for (int k = 0; k < first; k++) {
-                hand.deliver(0);
-            }
-            hand.tick();
-            due.same("run", run.run(1), hand.way());
-            for (int node = 0; node < 7; node++) {
-                for (int k = 0; k < 9; k++) {
-                    due.same("about", run.about(node, k), hand.about(node, k));
+        Due.loseAll(x);
+        Due.ticks(x, 3);
+        int i = 0;
+        for (int s = 2; s <= 5; s++) {
+            for (int to = 1; to <= 4; to++) {
+                if (s == 5 && to == 2) {
+                    continue;
                 }
+                int[] row = Due.mail(0, to, 3, 8, s, 20 + s);
+                for (int k = 0; k < 6; k++) {
+                    due.same("slot " + s + " to " + to + ", " + k, x.message(i, k), row[k]);
+                }
+                i++;
             }
         }
-        due.same("all nine", run.about(0, 0) >= 9 ? 1 : 0, 1);
+        due.same("and no more", x.way(), i);
+    }
+
+    /** The spare's LOW is 5, and main 1 knows nothing: it promised all the same. */
+    private static void promisedWhateverItsLow() {
+        CheapVotes x = Scenes.mainOneIsOut();
+        x.crash(1, false);
+        x.campaign(1);
+        Due.loseAll(x);
+        Due.ticks(x, 3);
+        due.onWay("to both", x, Due.mail(1, 0, 1, 9, 0, 0), Due.mail(1, 2, 1, 9, 0, 0));
+        x.deliver(1);
+        due.onWay("LOW 5", x, Due.mail(1, 0, 1, 9, 0, 0), Due.mail(2, 1, 2, 9, 5, 0));
+        x.deliver(1);
+        due.same("that is no QUORUM", x.about(1, 1), 1);
+        Due.loseAll(x);
+        Due.ticks(x, 3);
+        due.onWay("but to those that promised", x, Due.mail(1, 0, 1, 9, 0, 0));
+    }
+
+    /** Whoever campaigned first. */
+    private static void mainsByNumbers() {
+        CheapVotes x = new CheapVotes(2);
+        x.campaign(1);
+        x.campaign(0);
+        Due.loseAll(x);
+        Due.ticks(x, 3);
+        due.onWay("main 0, then main 1", x, Due.mail(0, 1, 1, 8, 0, 0), Due.mail(0, 2, 1, 8, 0, 0),
+            Due.mail(1, 0, 1, 9, 0, 0), Due.mail(1, 2, 1, 9, 0, 0));
+    }
+
+    /** At the 4th tick of slot 1 main 1 waits to go; slot 0 is known to both since the 3rd. */
+    private static void forgetBeforeWhatGoesOn() {
+        CheapVotes x = Due.led(2);
+        x.submit(0, 5);
+        x.submit(0, 6);
+        Due.ticks(x, 3);
+        due.deliverSlot(x, 1, 3, 0);
+        due.deliverSlot(x, 0, 4, 0);
+        due.deliverSlot(x, 1, 5, 0);
+        due.deliverSlot(x, 0, 6, 1);
+        Due.loseAll(x);
+        x.tick();
+        due.onWay("FORGET, then ACCEPT", x, Due.mail(0, 2, 7, 0, 1, 0),
+            Due.mail(0, 1, 3, 8, 2, -2));
     }
 }
