@@ -1,40 +1,26 @@
+import java.io.IOException;
 import java.lang.reflect.Constructor;
 import java.lang.reflect.Field;
 import java.lang.reflect.Member;
 import java.lang.reflect.Method;
 import java.lang.reflect.Modifier;
+import java.nio.file.Files;
+import java.nio.file.Path;
 import java.util.Arrays;
 import java.util.TreeSet;
+import java.util.regex.Matcher;
+import java.util.regex.Pattern;
 import java.util.stream.Collectors;
 
 /** The class has the document's face and no other member that can be seen from outside. */
 final class FaceTest {
-    private static final String INDEX = "java.lang.IndexOutOfBoundsException";
-    private static final String ARGUMENT = "java.lang.IllegalArgumentException";
-    private static final String STATE = "java.lang.IllegalStateException";
-
-    /** Each method as the document's code block declares it, its exceptions in their order. */
-    private static final String[] FACE = {
-        "int submit(int, int) throws " + INDEX + ", " + ARGUMENT + ", " + STATE,
-        "int campaign(int) throws " + INDEX + ", " + STATE,
-        "int deliver(int) throws " + INDEX,
-        "int lose(int) throws " + INDEX,
-        "int repeat(int) throws " + INDEX + ", " + STATE,
-        "void tick()",
-        "int run(int) throws " + ARGUMENT,
-        "int crash(int, boolean) throws " + INDEX,
-        "int way()",
-        "int message(int, int) throws " + INDEX,
-        "int decided(int, int) throws " + INDEX,
-        "int about(int, int) throws " + INDEX,
-        "int accepted(int, int, int) throws " + INDEX,
-        "int members(int, int) throws " + INDEX,
-        "int lost()",
-    };
+    /** A method in the document's code block: what it answers, name, parameters, exceptions. */
+    private static final Pattern METHOD =
+        Pattern.compile("    public (\\w+) (\\w+)\\((.*)\\)(?: throws (.*))?;");
 
     private static final Due due = new Due();
 
-    public static void main(String[] args) {
+    public static void main(String[] args) throws IOException {
         due.same("public and final", CheapVotes.class.getModifiers(),
             Modifier.PUBLIC | Modifier.FINAL);
         methods();
@@ -58,7 +44,24 @@ final class FaceTest {
             + (exceptions.isEmpty() ? "" : " throws " + exceptions);
     }
 
-    private static void methods() {
+    /** Each method as the document declares it, written as declared() writes it. */
+    private static TreeSet<String> face() throws IOException {
+        TreeSet<String> face = new TreeSet<>();
+        for (String line : Files.readAllLines(Path.of("../shared/DOC.md"))) {
+            Matcher method = METHOD.matcher(line);
+            if (method.matches()) {
+                String types = Arrays.stream(method.group(3).split(", "))
+                    .map(parameter -> parameter.split(" ")[0]).collect(Collectors.joining(", "));
+                String exceptions = method.group(4) == null ? ""
+                    : " throws " + Arrays.stream(method.group(4).split(", "))
+                        .map(name -> "java.lang." + name).collect(Collectors.joining(", "));
+                face.add(method.group(1) + " " + method.group(2) + "(" + types + ")" + exceptions);
+            }
+        }
+        return face;
+    }
+
+    private static void methods() throws IOException {
         TreeSet<String> seen = new TreeSet<>();
         TreeSet<String> names = new TreeSet<>();
         for (Method method : CheapVotes.class.getDeclaredMethods()) {
@@ -68,7 +71,8 @@ final class FaceTest {
                 due.same("public: " + method.getName(), method.getModifiers(), Modifier.PUBLIC);
             }
         }
-        TreeSet<String> face = new TreeSet<>(Arrays.asList(FACE));
+        TreeSet<String> face = face();
+        due.same("methods of the document", face.size(), 15);
         for (String method : face) {
             due.same("stands: " + method, seen.contains(method) ? 1 : 0, 1);
         }
