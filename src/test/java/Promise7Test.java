@@ -1,4 +1,4 @@
-/** Promise 7, tick: a TICK and nothing else; TickTest and Part3TickTest test what it is. */
+/** Promise 7, tick: a TICK and nothing else; Part3TickTest and Part3TickRunsTest test what it is. */
 final class Promise7Test {
     private static final Due due = new Due();
 
