@@ -1,4 +1,4 @@
-/** Promise 7, tick: a TICK and nothing else; Part3TickTest and Part3TickRunsTest test what it is. */
+/** Promise 7, tick: a TICK and nothing else; what that is, the tests of part 3 tell. */
 final class Promise7Test {
     private static final Due due = new Due();
 
